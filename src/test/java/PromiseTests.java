@@ -355,6 +355,12 @@ public final class PromiseTests {
         x.undo();
         due("over the own hex and on", x.sail(0, 122211), 31);
         x.undo();
+        due("six steps", x.sail(0, 111131), 77);
+        x.undo();
+        due("six steps of 2 and 3", x.sail(0, 222333), 40);
+        x.undo();
+        due("the greatest path", x.sail(0, 333333), 40);
+        x.undo();
         for (int direction = 0; direction < 6; direction++) {
             int[] next = {41, 49, 48, 39, 31, 32};
             int[] far = {44, 76, 72, 36, 4, 8};
@@ -386,6 +392,13 @@ public final class PromiseTests {
                 due("full sails, " + heading + " by " + sum, x.ship(0, 8), factor * 8 / 32);
                 due("small crew, " + heading + " by " + sum, x.ship(1, 8), factor * 3 / 32);
                 due("few sails, " + heading + " by " + sum, x.ship(2, 8), factor * 3 / 32);
+                for (int sails = 1; sails <= 8; sails++) {
+                    WindCardShips y = new WindCardShips();
+                    y.addShip(0, 40, heading, sails, 9, 0);
+                    y.tell(0, sum / 2);
+                    y.tell(1, sum - sum / 2);
+                    due(sails + " sails, " + heading + " by " + sum, y.ship(0, 8), factor * sails / 32);
+                }
             }
         }
     }
@@ -482,7 +495,7 @@ public final class PromiseTests {
         about = "promise 7, sinking";
         WindCardShips x = new WindCardShips();
         x.addShip(0, 40, 0, 8, 40, 9);
-        x.addShip(1, 49, 3, 3, 6, 4);
+        x.addShip(1, 49, 3, 3, 6, 3);
         x.addShip(0, 50, 0, 1, 10, 9);
         x.addShip(1, 58, 0, 8, 40, 9);
         tellBoth(x, 0, 0);
@@ -516,7 +529,22 @@ public final class PromiseTests {
         tellBoth(x, 0, 0);
         due("21 hits", x.fire(0, 1, 1), 21);
         due("what is left stays", x.ship(1, 5) * 100 + x.ship(1, 4) * 10 + x.ship(1, 6), 2300 + 20 + 6);
+        due("a sunk ship with a crew is repaired", x.repair(1, 0), STATE);
+        due("its sails", x.repair(1, 1), STATE);
+        hullOfOne();
         due("its own captain sees none", x.captain(1, 3) + x.captain(1, 4) + x.strength(1), 0);
+    }
+
+    private static void hullOfOne() {
+        WindCardShips x = new WindCardShips();
+        x.addShip(0, 40, 0, 8, 8, 6);
+        x.addShip(1, 49, 0, 8, 8, 0);
+        x.addShip(0, 48, 4, 8, 5, 1);
+        tellBoth(x, 0, 0);
+        due("18 hits", x.fire(0, 1, 1), 18);
+        due("1 hit", x.fire(2, 1, 1), 1);
+        due("a hull of 1 floats", x.ship(1, 3) * 100 + x.ship(1, 1), 149);
+        due("it is seen", x.on(49) * 10 + x.captain(1, 3), 12);
     }
 
     private static void grapple() {
@@ -651,8 +679,12 @@ public final class PromiseTests {
         due("the other is grappled too", x.repair(0, 0), STATE);
         x.undo();
         x.end();
+        due("in the next part of the cards", x.repair(1, 0), STATE);
+        due("in the next turn", x.count(0), 1);
+        x.undo();
+        x.end();
         tellBoth(x, 1, 1);
-        due("in the next turn", x.repair(1, 0), 6);
+        due("in the next part of the moves", x.repair(1, 0), 6);
         x.end();
         tellBoth(x, 2, 2);
         due("as far as the timber", x.repair(1, 0), 4);
@@ -742,7 +774,8 @@ public final class PromiseTests {
             {20, 20, 15, 15, 0, 1, 0}, {10, 9, 7, 6, 0, 1, 0}, {40, 1, 20, 19, 0, 0, 1},
             {39, 1, 19, 19, 0, 0, 1}, {1, 40, 19, 20, 1, 1, 1}, {1, 1, 0, 0, 0, 1, 0},
             {2, 1, 1, 0, 0, 0, 1}, {3, 1, 1, 1, 0, 0, 1}, {40, 10, 19, 18, 0, 0, 1},
-            {40, 11, 37, 1, 0, 1, 0}, {5, 2, 2, 2, 0, 0, 1}, {5, 3, 4, 1, 0, 1, 0}};
+            {40, 11, 37, 1, 0, 1, 0}, {5, 2, 2, 2, 0, 0, 1}, {5, 3, 4, 1, 0, 1, 0},
+            {11, 40, 1, 37, 0, 1, 0}, {1, 2, 0, 1, 1, 1, 1}, {3, 5, 1, 4, 0, 1, 0}};
         for (int[] row : rows) {
             WindCardShips x = fought(row[0], row[1]);
             String what = row[0] + " against " + row[1] + ": ";
@@ -907,6 +940,7 @@ public final class PromiseTests {
         }
         due("no more", x.undo(), STATE);
         due("islands stay", x.count(7), 2);
+        undoCapture();
         undoEach();
         undoSlots();
     }
@@ -944,6 +978,27 @@ public final class PromiseTests {
             case 13: return obey(x, "t0,0;t1,0;g0,1;e");
             default: return x.restore(1);
         }
+    }
+
+    private static void undoCapture() {
+        WindCardShips x = new WindCardShips();
+        x.addShip(0, 40, 0, 8, 40, 1);
+        x.addShip(1, 31, 0, 8, 1, 1);
+        tellBoth(x, 0, 0);
+        due("by the left side", x.fire(0, 0, 1), 3);
+        due("it cannot fire", x.ship(0, 9), 1);
+        x.undo();
+        due("it can fire again", x.ship(0, 9), 0);
+        x.grapple(0, 1);
+        x.take(0);
+        x.end();
+        due("captured", x.count(8) * 10 + x.ship(1, 0), 10);
+        due("undo", x.undo(), 5);
+        due("not captured", x.count(8) * 10 + x.ship(1, 0), 1);
+        due("grappled again", x.ship(1, 7), 0);
+        x.end();
+        x.restore(0);
+        due("not captured in the snapshot", x.count(8) * 10 + x.ship(1, 0), 1);
     }
 
     private static void undoSlots() {
@@ -1023,9 +1078,10 @@ public final class PromiseTests {
         due("an error by a state", obey(x, "t0,1;t1,0"), 0);
         due("a sail with no path", obey(x, "t1,3;s0,0"), 1);
         due("a sail with the greatest number", obey(x, "s0,999999"), 0);
-        due("a hit of 0 is no error", obey(x, "f2,1,0;e"), 0);
+        due("a shot that is not possible", obey(x, "f2,1,0;e"), 0);
         due("sail of six steps", obey(x, "s0,111111;e"), 0);
         due("full history", x.count(10), 6);
+        carryOutMore();
         StringBuilder many = new StringBuilder("e");
         for (int i = 0; i < 49; i++) {
             many.append(";e");
@@ -1039,6 +1095,21 @@ public final class PromiseTests {
         WindCardShips y = new WindCardShips();
         due("100 characters", obey(y, whole.append("t0,3").toString()), 25);
         due("eight turns and a card", y.count(0) * 10 + y.count(4), 81);
+    }
+
+    private static void carryOutMore() {
+        WindCardShips x = new WindCardShips();
+        x.addShip(0, 40, 0, 8, 40, 0);
+        x.addShip(1, 49, 0, 8, 30, 9);
+        due("an answer of 0 is no error", obey(x, "t0,1;t1,4;f0,1,1;e"), 4);
+        x.undo();
+        due("numbers of many digits", obey(x, "t0,1;t1,4;s0,133131"), 3);
+        due("by the whole path", x.ship(0, 1) * 10 + x.ship(0, 2), 313);
+        x.undo();
+        due("a number of two digits is no ship", obey(x, "t0,1;t1,4;s10,1"), 2);
+        x.undo();
+        due("an order that sails off the board", obey(x, "t0,1;t1,4;s0,111111;e"), 2);
+        due("what was done", x.count(1) * 10 + x.ship(0, 10), 10);
     }
 
     private static void faults() {
@@ -1308,6 +1379,14 @@ public final class PromiseTests {
         due("three steps", x.ship(1, 8), 3);
         due("ahead, and down by a turn", x.reach(1), 6);
         due("in the corner", x.reach(2), 3);
+        x.addShip(0, 18, 4, 8, 8, 9);
+        due("the strength of 2 and the turning of 4", x.ship(3, 8), 4 * 2 * 8 / 32);
+        due("a ship on the way", x.way(3, 0, 0), NONE);
+        due("to 9, and to 10 by a turn", x.reach(3), 2);
+        x.undo();
+        WindCardShips z = new WindCardShips();
+        z.addShip(0, 9, 4, 8, 8, 9);
+        due("to the first hex, and to 1 by a turn", z.reach(0), 2);
         x.setIsland(1, 1);
         due("an island ahead", x.reach(1), 2);
         x.setIsland(9, 1);
@@ -1385,7 +1464,27 @@ public final class PromiseTests {
         due("without the cards 0, by how many", x.bestCard(0, 44, 1), 3);
         due("a grappled ship", grappled().bestCard(0, 49, 0), NONE);
         due("a sunk ship", sunk().bestCard(1, 50, 0), NONE);
-        due("the other captain's ship", x.bestCard(1, 79, 1) > 0 ? 1 : 0, 1);
+        bestCardMore();
+    }
+
+    private static void bestCardMore() {
+        WindCardShips x = new WindCardShips();
+        x.addShip(1, 36, 0, 8, 8, 9);
+        // Six steps ahead only by a sum of 5: captain 1 has the cards 1 to 5, captain 0 all but one.
+        due("six steps, card", x.bestCard(0, 42, 0), 0);
+        due("six steps, by how many", x.bestCard(0, 42, 1), 1);
+        tellBoth(x, 5, 0);
+        x.end();
+        tellBoth(x, 1, 4);
+        x.end();
+        tellBoth(x, 0, 2);
+        x.end();
+        due("the wind", x.count(2) * 10 + x.count(3), 3);
+        due("hands", x.captain(0, 0) * 100 + x.captain(1, 0), (4 + 8 + 16) * 100 + 2 + 8 + 32);
+        due("of captain 1, card", x.bestCard(0, 42, 0), 1);
+        due("of captain 1, by how many", x.bestCard(0, 42, 1), 1);
+        due("of captain 1, one step, card", x.bestCard(0, 37, 0), 3);
+        due("of captain 1, one step, by how many", x.bestCard(0, 37, 1), 3);
     }
 
     private static void threats() {
@@ -1440,6 +1539,11 @@ public final class PromiseTests {
         due("the most", x.strength(1), 15 + 20 + 9);
         x.addShip(1, 77, 0, 8, 39, 9);
         due("half a man", x.strength(1), 44 + 43);
+        x.addShip(1, 70, 0, 5, 2, 3);
+        due("87.5 and 17.875 are 105.375", x.strength(1), 105);
+        WindCardShips y = new WindCardShips();
+        y.addShip(1, 70, 0, 5, 2, 3);
+        due("17.875", y.strength(1), 17);
         due("a sunk ship", sunk().strength(1), 0);
     }
 
@@ -1454,6 +1558,7 @@ public final class PromiseTests {
             int[][] calls = {{-1, 0}, {81, 0}, {40, 2}};
             for (int[] call : calls) {
                 x.setIsland(call[0], call[1]);
+                x.setIsland(70, -1);
                 x.addShip(call[0], call[0], 0, 0, 0, 0);
                 x.setTimber(call[0], 100);
                 x.tell(call[0], 9);
