@@ -97,16 +97,18 @@ final class BoardBoundaries {
         for (int hex = 0; hex < 81; hex++) {
             everywhere.append("on(" + hex + ") = NONE\n");
         }
-        check.test("A hex can be an island (at first none is).", everywhere.toString(),
-            "count(7) = 0; setIsland(0, 1) = 1; on(0) = 8; on(1) = NONE; setIsland(80, 1) = 2; on(80) = 8; on(79) = NONE");
+        check.test("A hex can be an island (at first none is).", everywhere.toString(), """
+            count(7) = 0; setIsland(0, 1) = 1; on(0) = 8; on(1) = NONE; setIsland(80, 1) = 2; on(80) = 8; on(79) = NONE""");
     }
 
     private void nextHexes() {
         for (int hex = 0; hex < 81; hex++) {
             for (int direction = 0; direction < 6; direction++) {
                 int next = next(hex, direction);
-                check.test("the next hex in the direction 0 is in the next column of the same row, in 1 in the same column "
-                    + "of the next row, in 2 in the column before of the next row, in 3 in the column before of the same "
+                check.test("the next hex in the direction 0 is in the next column of the same row, in 1 in the same "
+                    + "column "
+                    + "of the next row, in 2 in the column before of the next row, in 3 in the column before of the "
+                    + "same "
                     + "row, in 4 in the same column of the row before, in 5 in the next column of the row before.",
                     "addShip(0, " + hex + ", " + direction + ", 8, 40, 0) = 0",
                     "tell(0, " + (direction == 4 ? 4 : 1) + ") = 1; tell(1, 0) = 3",
@@ -207,7 +209,8 @@ final class BoardBoundaries {
     }
 
     private void windTurns() {
-        String words = "the wind's direction becomes greater by the sum of both cards (less 6 as often as it is above 5)";
+        String words = "the wind's direction becomes greater by the sum of both cards (less 6 as often as it is "
+        + "above 5)";
         // From direction 5: sums 0, 1, 6, 7, 9 and 10, that is 5, 6, 11, 12, 14 and 15.
         int[][] rows = {{0, 0, 5, 1}, {1, 0, 0, 2}, {1, 5, 5, 1}, {2, 5, 0, 2}, {5, 4, 2, 1}, {5, 5, 3, 2}};
         for (int[] row : rows) {
@@ -298,7 +301,8 @@ final class BoardBoundaries {
     }
 
     private void turnings() {
-        String words = "The turning from the wind's direction to the heading of a ship is the heading less the direction, "
+        String words = "The turning from the wind's direction to the heading of a ship is the heading less the "
+        + "direction, "
             + "plus 6 if this is below 0.";
         int[] strength = {1, 2, 3, 1, 2, 3};
         for (int direction = 0; direction < 6; direction++) {
@@ -319,18 +323,27 @@ final class BoardBoundaries {
         int[][] rows = {{1, 3, 40, 0}, {1, 4, 40, 1}, {1, 5, 40, 1}, {1, 7, 40, 1}, {1, 8, 40, 2}, {5, 3, 40, 0},
             {5, 4, 40, 1}, {5, 7, 40, 1}, {5, 8, 40, 2}, {0, 5, 40, 0}, {0, 6, 40, 1}, {0, 8, 40, 1}, {2, 7, 40, 0},
             {2, 8, 40, 1}, {4, 7, 40, 0}, {4, 8, 40, 1}, {3, 8, 40, 0},
-            {1, 8, 7, 1}, {1, 8, 8, 2}, {1, 8, 9, 2}, {1, 4, 3, 0}, {1, 4, 4, 1}, {1, 4, 5, 1}, {1, 3, 4, 0}, {1, 5, 3, 0},
+            {1, 8, 7, 1}, {1, 8, 8, 2}, {1, 8, 9, 2}, {1, 4, 3, 0}, {1, 4, 4, 1}, {1, 4, 5, 1}, {1, 3, 4, 0}, {1, 5, 3,
+                0},
             {1, 1, 40, 0}, {1, 8, 1, 0}};
         for (int[] row : rows) {
             check.test(product, "addShip(0, 40, " + row[0] + ", " + row[1] + ", " + row[2] + ", 0) = 0",
                 "tell(0, 0) = 1; tell(1, 0) = 3; ship(0, 8) = " + row[3]);
         }
-        // sails, steps with the wind 2 of a strength of 3: 8 times 3 times the sails, divided by 32
-        int[][] strong = {{1, 0}, {2, 1}, {3, 2}, {4, 3}, {5, 3}, {6, 4}, {7, 5}, {8, 6}};
-        for (int[] row : strong) {
-            check.test("each other one can make as many steps in a turn as the product of three numbers, divided by 32",
-                "addShip(0, 40, 1, " + row[0] + ", 40, 0) = 0; addShip(0, 44, 3, 8, " + row[0] + ", 0) = 1",
-                "tell(0, 1) = 1; tell(1, 1) = 3; ship(0, 8) = " + row[1] + "; ship(1, 8) = " + row[1]);
+        String divided = "each other one can make as many steps in a turn as the product of three numbers, divided "
+        + "by 32";
+        // The cards 0, 1 and 2 beside a 0 turn the wind by as many, to a strength greater by 1.
+        for (int strength = 1; strength <= 3; strength++) {
+            for (int turning = 0; turning < 6; turning++) {
+                for (int third = 1; third <= 8; third++) {
+                    int heading = (turning + strength - 1) % 6;
+                    int steps = FACTOR[turning] * strength * third / 32;
+                    check.test(divided, "addShip(0, 40, " + heading + ", " + third + ", 40, 0) = 0",
+                        "addShip(0, 44, " + heading + ", 8, " + third + ", 0) = 1",
+                        "tell(0, " + (strength - 1) + ") = 1; tell(1, 0) = 3; count(3) = " + strength,
+                        "ship(0, 8) = " + steps + "; ship(1, 8) = " + steps);
+                }
+            }
         }
         check.test("A ship that is grappled makes no steps", """
             addShip(0, 40, 1, 8, 40, 9) = 0; addShip(1, 41, 1, 8, 40, 9) = 1
@@ -363,12 +376,14 @@ final class BoardBoundaries {
         for (int[] row : good) {
             check.test(words, fast(), "sail(0, " + row[0] + ") = " + row[1]);
         }
-        int[] bad = {0, 4, 9, -1, -3, -111, 10, 14, 41, 20, 34, 101, 121314, 111110, 111114, 411111, 333330, 333334, 333340,
+        int[] bad = {0, 4, 9, -1, -3, -111, 10, 14, 41, 20, 34, 101, 121314, 111110, 111114, 411111, 333330, 333334,
+            333340,
             400000, 999999, 1000000, 1111111, 3333333, 1111111111, Integer.MAX_VALUE, Integer.MIN_VALUE, -2147483647};
         for (int path : bad) {
             check.test(words, fast(), "sail(0, " + path + ") = INVALID_ARGUMENT; sail(0, 111111) = 58");
         }
-        check.test("from the first on", fast(), "# a step ahead, then a turn: not the other way round", "sail(0, 12) = 13");
+        check.test("from the first on", fast(), "# a step ahead, then a turn: not the other way round",
+            "sail(0, 12) = 13");
         check.test("from the first on", fast(), "sail(0, 21) = 12");
         String turn = "2 turns the heading by one direction up (from 5 to 0), 3 by one down (from 0 to 5).";
         int[][] turns = {{4, 2, 5}, {5, 2, 0}, {0, 2, 1}, {1, 3, 0}, {0, 3, 5}, {5, 3, 4}};
@@ -379,7 +394,8 @@ final class BoardBoundaries {
     }
 
     private void pathSteps() {
-        String exists = "1 is a step ahead to the next hex in the direction of the heading, which has to exist and to be free";
+        String exists = "1 is a step ahead to the next hex in the direction of the heading, which has to exist and "
+        + "to be free";
         check.test(exists, fast(), "sail(0, 111111) = 58");
         check.test(exists, """
             # one row and two rows farther down the sixth and the fifth step are off the board

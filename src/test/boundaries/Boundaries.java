@@ -90,6 +90,12 @@ final class Boundaries {
             looks.remove(View.STATES);
             compare(List.of(calls) + " changed", looks, View.of(replay(played), looks), View.of(replay(more), looks));
         }
+        for (String slot : new String[] {"restore(0)", "restore(1)"}) {
+            List<Call> looks = View.afterwards(List.of(Call.of(slot)));
+            looks.remove(View.STATES);
+            compare(List.of(calls) + " and " + slot + " changed", looks, View.of(replay(played), looks),
+                View.of(replay(more), looks));
+        }
     }
 
     /** A sentence that names no boundary, so that no run belongs to it. */

@@ -50,7 +50,8 @@ final class FightBoundaries {
     }
 
     private void lineTargets() {
-        String words = "The target on a line is the first ship that floats, of whichever captain, on its first three hexes, "
+        String words = "The target on a line is the first ship that floats, of whichever captain, on its first "
+        + "three hexes, "
             + "if there is no island before it";
         for (int direction = 0; direction < 6; direction++) {
             for (int distance = 1; distance <= 4; distance++) {
@@ -65,11 +66,13 @@ final class FightBoundaries {
         String three = "addShip(0, 40, 0, 8, 8, 1) = 0; addShip(1, 67, 0, 8, 8, 1) = 1\n";
         int[][] islands = {{49, 0}, {58, 0}, {76, 2}, {48, 2}, {50, 2}, {57, 2}, {59, 2}, {31, 2}};
         for (int[] row : islands) {
-            check.test(words, three, "setIsland(" + row[0] + ", 1) = 1; targets(0, 1) = " + row[1] + "; threats(1) = " + row[1] / 2,
+            check.test(words, three,
+                "setIsland(" + row[0] + ", 1) = 1; targets(0, 1) = " + row[1] + "; threats(1) = " + row[1] / 2,
                 MOVES, "fire(0, 1, 1) = " + (row[1] == 0 ? "ILLEGAL_STATE" : "1"));
         }
         check.test(words, "addShip(0, 40, 0, 8, 8, 1) = 0; addShip(1, 58, 0, 8, 8, 1) = 1",
-            "# an island behind the target plays no part", "setIsland(67, 1) = 1; targets(0, 1) = 2", MOVES, "fire(0, 1, 1) = 2");
+            "# an island behind the target plays no part", "setIsland(67, 1) = 1; targets(0, 1) = 2", MOVES,
+                "fire(0, 1, 1) = 2");
         check.test(words, three, """
             # the first ship alone is a target, of whichever captain
             addShip(1, 58, 0, 8, 8, 1) = 2; targets(0, 1) = 4; hits(0, 1, 1) = NONE; hits(0, 1, 2) = 2
@@ -87,11 +90,13 @@ final class FightBoundaries {
     }
 
     private void otherCaptain() {
-        String words = "a ship can be fired at by a side if it is the target on one of the lines of this side and belongs to "
+        String words = "a ship can be fired at by a side if it is the target on one of the lines of this side and "
+        + "belongs to "
             + "the other captain.";
         for (int captain = 0; captain < 2; captain++) {
             for (int other = 0; other < 2; other++) {
-                check.test(words, "addShip(" + captain + ", 40, 0, 8, 8, 1) = 0; addShip(" + other + ", 49, 0, 8, 8, 1) = 1",
+                check.test(words,
+                    "addShip(" + captain + ", 40, 0, 8, 8, 1) = 0; addShip(" + other + ", 49, 0, 8, 8, 1) = 1",
                     "targets(0, 1) = " + (captain == other ? 0 : 2) + "; threats(1) = " + (captain == other ? 0 : 1),
                     "hits(0, 1, 1) = " + (captain == other ? "NONE" : "3"), MOVES,
                     "fire(0, 1, 1) = " + (captain == other ? "ILLEGAL_STATE" : "3"));
@@ -113,12 +118,14 @@ final class FightBoundaries {
     }
 
     private void hits() {
-        String words = "The hits are the guns times (4 less the number of hexes to the target, which is 1 for a neighboring "
+        String words = "The hits are the guns times (4 less the number of hexes to the target, which is 1 for a "
+        + "neighboring "
             + "hex), times the crew (8 if it is more), divided by 8.";
         // guns, crew, distance, hits
         int[][] rows = {{9, 40, 1, 27}, {9, 40, 2, 18}, {9, 40, 3, 9}, {9, 7, 1, 23}, {9, 8, 1, 27}, {9, 9, 1, 27},
             {1, 7, 3, 0}, {1, 8, 3, 1}, {1, 9, 3, 1}, {1, 2, 1, 0}, {1, 3, 1, 1}, {1, 5, 1, 1}, {1, 6, 1, 2},
-            {1, 3, 2, 0}, {1, 4, 2, 1}, {0, 40, 1, 0}, {1, 1, 1, 0}, {9, 1, 1, 3}, {9, 1, 3, 1}, {8, 1, 3, 1}, {7, 1, 3, 0},
+            {1, 3, 2, 0}, {1, 4, 2, 1}, {0, 40, 1, 0}, {1, 1, 1, 0}, {9, 1, 1, 3}, {9, 1, 3, 1}, {8, 1, 3, 1}, {7, 1, 3,
+                0},
             {2, 8, 1, 6}, {3, 5, 2, 3}};
         for (int[] row : rows) {
             check.test(words, "addShip(0, 40, 0, 8, " + row[1] + ", " + row[0] + ") = 0",
@@ -128,12 +135,15 @@ final class FightBoundaries {
     }
 
     private void losses() {
-        String words = "The target loses as much of its hull as there are hits, of its crew a third of the hits, of its sails a "
+        String words = "The target loses as much of its hull as there are hits, of its crew a third of the hits, of "
+        + "its sails a "
             + "quarter of the hits, of its guns a sixth of the hits";
         // guns, crew and distance of the ship that fires; hits; hull, crew, sails and guns of the target then
         int[][] rows = {{1, 8, 3, 1, 19, 40, 8, 9}, {2, 8, 3, 2, 18, 40, 8, 9}, {3, 8, 3, 3, 17, 39, 8, 9},
-            {4, 8, 3, 4, 16, 39, 7, 9}, {5, 8, 3, 5, 15, 39, 7, 9}, {6, 8, 3, 6, 14, 38, 7, 8}, {7, 8, 3, 7, 13, 38, 7, 8},
-            {8, 8, 3, 8, 12, 38, 6, 8}, {9, 8, 3, 9, 11, 37, 6, 8}, {6, 5, 1, 11, 9, 37, 6, 8}, {6, 8, 2, 12, 8, 36, 5, 7},
+            {4, 8, 3, 4, 16, 39, 7, 9}, {5, 8, 3, 5, 15, 39, 7, 9}, {6, 8, 3, 6, 14, 38, 7, 8}, {7, 8, 3, 7, 13, 38, 7,
+                8},
+            {8, 8, 3, 8, 12, 38, 6, 8}, {9, 8, 3, 9, 11, 37, 6, 8}, {6, 5, 1, 11, 9, 37, 6, 8}, {6, 8, 2, 12, 8, 36, 5,
+                7},
             {5, 7, 1, 13, 7, 36, 5, 7}, {6, 8, 1, 18, 2, 34, 4, 6}};
         for (int[] row : rows) {
             check.test(words, "addShip(0, 40, 0, 8, " + row[1] + ", " + row[0] + ") = 0",
@@ -169,7 +179,8 @@ final class FightBoundaries {
         check.test("(Hits can be 0.", """
             # a crew of 0 can fire
             addShip(0, 40, 0, 8, 8, 6) = 0; addShip(1, 49, 0, 8, 6, 9) = 1; tell(0, 0) = 1; tell(1, 0) = 3
-            fire(0, 1, 1) = 18; ship(1, 5) = 0; ship(1, 6) = 6; hits(1, 0, 0) = 0; fire(1, 0, 0) = 0; ship(0, 3) = 20""");
+            fire(0, 1, 1) = 18; ship(1, 5) = 0; ship(1, 6) = 6; hits(1, 0, 0) = 0; fire(1, 0, 0) = 0
+            ship(0, 3) = 20""");
         check.test("Whether either ship is grappled plays no part.)", """
             addShip(0, 40, 0, 8, 8, 1) = 0; addShip(1, 49, 0, 8, 8, 1) = 1; addShip(1, 31, 0, 8, 8, 1) = 2
             tell(0, 0) = 1; tell(1, 0) = 3
@@ -226,7 +237,8 @@ final class FightBoundaries {
         check.test(words, """
             # both sides in one turn, and two turns later again
             addShip(0, 40, 0, 8, 8, 1) = 0; addShip(1, 67, 0, 8, 8, 1) = 1; addShip(1, 13, 0, 8, 8, 1) = 2
-            tell(0, 0) = 1; tell(1, 0) = 3; fire(0, 0, 2) = 1; fire(0, 1, 1) = 1; ship(0, 9) = 3; end() = 1; ship(0, 9) = 3
+            tell(0, 0) = 1; tell(1, 0) = 3; fire(0, 0, 2) = 1; fire(0, 1, 1) = 1; ship(0, 9) = 3; end() = 1
+            ship(0, 9) = 3
             tell(0, 1) = 1; tell(1, 1) = 3; end() = 2; ship(0, 9) = 0
             fire(0, 0, 2) = ILLEGAL_STATE; tell(0, 2) = 1; tell(1, 2) = 3; fire(0, 0, 2) = 1; fire(0, 1, 1) = 1""");
         check.test(words, """
@@ -234,7 +246,8 @@ final class FightBoundaries {
             addShip(0, 40, 0, 8, 40, 1) = 0; addShip(1, 49, 0, 8, 1, 1) = 1; addShip(1, 58, 0, 8, 8, 1) = 2
             addShip(1, 33, 0, 8, 8, 1) = 3; tell(0, 0) = 1; tell(1, 0) = 3
             fire(1, 0, 0) = 0; grapple(0, 1) = 41; end() = 1; ship(1, 0) = 0; ship(1, 9) = 1; ship(1, 10) = 0
-            tell(0, 1) = 1; tell(1, 1) = 3; hits(1, 0, 3) = 2; fire(1, 0, 3) = ILLEGAL_STATE; fire(1, 1, 2) = 3; ship(1, 9) = 3
+            tell(0, 1) = 1; tell(1, 1) = 3; hits(1, 0, 3) = 2; fire(1, 0, 3) = ILLEGAL_STATE; fire(1, 1, 2) = 3
+            ship(1, 9) = 3
             end() = 2; ship(1, 9) = 2; tell(0, 2) = 1; tell(1, 2) = 3; fire(1, 0, 3) = 2""");
     }
 
@@ -242,7 +255,8 @@ final class FightBoundaries {
 
     private void grapples() {
         check.section("Grapples");
-        String words = "Two ships of different captains on neighboring hexes can be grappled, each with one other ship at most.";
+        String words = "Two ships of different captains on neighboring hexes can be grappled, each with one other "
+        + "ship at most.";
         check.test(words, """
             addShip(0, 40, 0, 8, 8, 1) = 0; addShip(1, 41, 0, 8, 8, 1) = 1; addShip(1, 39, 0, 8, 8, 1) = 2
             addShip(0, 42, 0, 8, 8, 1) = 3; addShip(1, 38, 0, 8, 8, 1) = 4; tell(0, 0) = 1; tell(1, 0) = 3
@@ -259,16 +273,19 @@ final class FightBoundaries {
     /** Two ships are grappled and the turn is ended; the crews then, and 1 if they are grappled still. */
     private void fight(String words, int crew, int other, int then, int otherThen, int grappled) {
         boolean firstCan = 2 * crew >= other;
-        check.test(words, "addShip(0, 40, 0, 8, " + crew + ", 1) = 0; addShip(1, 41, 0, 8, " + other + ", 1) = 1", MOVES,
+        check.test(words, "addShip(0, 40, 0, 8, " + crew + ", 1) = 0; addShip(1, 41, 0, 8, " + other + ", 1) = 1",
+            MOVES,
             (firstCan ? "grapple(0, 1) = " : "grapple(1, 0) = ") + (crew + other), "end() = 1",
             "ship(0, 5) = " + then + "; ship(1, 5) = " + otherThen,
             "ship(0, 7) = " + (grappled == 1 ? "1" : "NONE") + "; ship(1, 7) = " + (grappled == 1 ? "0" : "NONE"));
     }
 
     private void fights() {
-        String quarter = "each crew becomes less by a quarter of the sum of the other crew and 3, both at once, but not less than 0.";
+        String quarter = "each crew becomes less by a quarter of the sum of the other crew and 3, both at once, but "
+        + "not less than 0.";
         // The loss of the first crew is 1 by a crew of 1 to 4, 2 by 5 to 8, 3 by 9 to 12.
-        int[][] rows = {{8, 3, 7, 1}, {8, 4, 7, 2}, {8, 5, 6, 3}, {9, 5, 7, 2}, {12, 8, 10, 5}, {12, 9, 9, 6}, {13, 9, 10, 5},
+        int[][] rows = {{8, 3, 7, 1}, {8, 4, 7, 2}, {8, 5, 6, 3}, {9, 5, 7, 2}, {12, 8, 10, 5}, {12, 9, 9, 6},
+            {13, 9, 10, 5},
             {20, 20, 15, 15}, {20, 21, 14, 16}, {40, 40, 30, 30}, {39, 40, 29, 30}, {37, 40, 27, 30}, {36, 40, 26, 31}};
         for (int[] row : rows) {
             fight(quarter, row[0], row[1], row[2], row[3], 1);
@@ -281,7 +298,8 @@ final class FightBoundaries {
         fight("but not less than 0.", 2, 8, 3, 4, 0);
         fight("but not less than 0.", 1, 8, 3, 4, 0);
         fight("but not less than 0.", 8, 1, 4, 3, 0);
-        String order = "When a turn is ended, the crews of each two that are grappled fight, by ascending numbers of the lower ship "
+        String order = "When a turn is ended, the crews of each two that are grappled fight, by ascending numbers "
+        + "of the lower ship "
             + "of both";
         check.test(order, """
             addShip(0, 40, 0, 8, 20, 1) = 0; addShip(1, 60, 0, 8, 10, 1) = 1; addShip(0, 61, 0, 8, 10, 1) = 2
@@ -296,26 +314,32 @@ final class FightBoundaries {
         check.test(order, """
             # who has been cut loose does not fight
             addShip(0, 40, 0, 8, 20, 1) = 0; addShip(1, 41, 0, 8, 20, 1) = 1
-            tell(0, 0) = 1; tell(1, 0) = 3; grapple(0, 1) = 40; cut(1) = 0; end() = 1; ship(0, 5) = 20; ship(1, 5) = 20""");
+            tell(0, 0) = 1; tell(1, 0) = 3; grapple(0, 1) = 40; cut(1) = 0; end() = 1; ship(0, 5) = 20
+            ship(1, 5) = 20""");
     }
 
     private void captures() {
-        String half = "If just one crew is 0 then, its ship is captured: it belongs to the other captain, and half of the other "
+        String half = "If just one crew is 0 then, its ship is captured: it belongs to the other captain, and half "
+        + "of the other "
             + "crew, as it is by then, leaves its ship and goes over.";
         // The crews, and what they are then: of 40 - 1 and 39 - 1 and of 2 - 1 and 3 - 1, half goes over.
-        int[][] rows = {{40, 1, 20, 19}, {39, 1, 19, 19}, {38, 1, 19, 18}, {2, 1, 1, 0}, {3, 1, 1, 1}, {4, 1, 2, 1}, {5, 2, 2, 2}};
+        int[][] rows = {{40, 1, 20, 19}, {39, 1, 19, 19}, {38, 1, 19, 18}, {2, 1, 1, 0}, {3, 1, 1, 1}, {4, 1, 2, 1},
+            {5, 2, 2, 2}};
         for (int[] row : rows) {
-            check.test(half, "addShip(0, 40, 0, 8, " + row[0] + ", 1) = 0; addShip(1, 41, 2, 7, " + row[1] + ", 5) = 1", MOVES,
+            check.test(half, "addShip(0, 40, 0, 8, " + row[0] + ", 1) = 0; addShip(1, 41, 2, 7, " + row[1] + ", 5) = 1",
+                MOVES,
                 "grapple(0, 1) = " + (row[0] + row[1]) + "; captain(0, 3) = 1; count(8) = 0; end() = 1",
                 "ship(0, 5) = " + row[2] + "; ship(1, 5) = " + row[3] + "; ship(0, 0) = 0; ship(1, 0) = 0",
                 "captain(0, 3) = 3; captain(1, 3) = 0; captain(0, 4) = 40; count(8) = 1; count(6) = 3",
-                "# all else of the ship is as it was",
-                "ship(1, 1) = 41; ship(1, 2) = 2; ship(1, 3) = 20; ship(1, 4) = 7; ship(1, 6) = 5; ship(1, 7) = NONE; ship(0, 7) = NONE");
+                "# all else of the ship is as it was", """
+                ship(1, 1) = 41; ship(1, 2) = 2; ship(1, 3) = 20; ship(1, 4) = 7; ship(1, 6) = 5; ship(1, 7) = NONE
+                ship(0, 7) = NONE""");
         }
         check.test(half, """
             # the ship with the lower number is captured by that of captain 1
             addShip(0, 40, 0, 8, 1, 1) = 0; addShip(1, 41, 2, 7, 2, 5) = 1; tell(0, 0) = 1; tell(1, 0) = 3
-            grapple(1, 0) = 3; end() = 1; ship(0, 0) = 1; ship(1, 0) = 1; ship(0, 5) = 0; ship(1, 5) = 1; count(8) = 1""");
+            grapple(1, 0) = 3; end() = 1; ship(0, 0) = 1; ship(1, 0) = 1; ship(0, 5) = 0; ship(1, 5) = 1
+            count(8) = 1""");
         check.test("If just one crew is 0 then", """
             # a crew of 1 is left, so nobody is captured
             addShip(0, 40, 0, 8, 40, 1) = 0; addShip(1, 41, 0, 8, 11, 1) = 1; tell(0, 0) = 1; tell(1, 0) = 3
@@ -369,7 +393,8 @@ final class FightBoundaries {
     }
 
     private void repairOnce() {
-        String able = "A ship that floats, is not grappled, and has neither sailed nor fired in this turn can be repaired once in it";
+        String able = "A ship that floats, is not grappled, and has neither sailed nor fired in this turn can be "
+        + "repaired once in it";
         check.test(able, hurt(2, 40), """
             repair(1, 1) = 1; ship(1, 10) = 4
             repair(1, 0) = ILLEGAL_STATE; repair(1, 1) = ILLEGAL_STATE; repair(1, 2) = ILLEGAL_STATE
@@ -403,7 +428,8 @@ final class FightBoundaries {
     private void repairAmounts() {
         String hull = "its hull by as many as a quarter of its crew, but not above 20, each for 1 timber";
         // hits, crew of the ship before them, by how many it is repaired (0: refused)
-        int[][] rows = {{2, 3, 0}, {2, 4, 1}, {2, 7, 1}, {2, 8, 2}, {2, 12, 2}, {1, 8, 1}, {0, 8, 0}, {0, 40, 0}, {5, 16, 3}, {5, 17, 4},
+        int[][] rows = {{2, 3, 0}, {2, 4, 1}, {2, 7, 1}, {2, 8, 2}, {2, 12, 2}, {1, 8, 1}, {0, 8, 0}, {0, 40, 0},
+            {5, 16, 3}, {5, 17, 4},
             {5, 20, 4}, {5, 21, 5}, {5, 40, 5}, {9, 40, 9}, {9, 38, 8}, {9, 39, 9}};
         for (int[] row : rows) {
             String by = row[2] == 0 ? "ILLEGAL_STATE" : "" + row[2];
@@ -431,7 +457,8 @@ final class FightBoundaries {
     }
 
     private void repairTimber() {
-        String words = "If the timber of its captain does not do for all of the hull, it does for as many as there is timber.";
+        String words = "If the timber of its captain does not do for all of the hull, it does for as many as there "
+        + "is timber.";
         // timber of captain 1, by how many of 5 (0: refused)
         int[][] rows = {{0, 0}, {1, 1}, {4, 4}, {5, 5}, {6, 5}, {99, 5}};
         for (int[] row : rows) {

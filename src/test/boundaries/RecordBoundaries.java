@@ -94,7 +94,8 @@ final class RecordBoundaries {
             rows.append("append(" + (int) signs.charAt(i) + ") = " + (i + 1) + "\n");
         }
         if (fault >= 0) {
-            check.test(words, rows.toString(), "carryOut() = " + (-1000 - fault), "count(11) = " + signs.length() + "; count(10) = 0");
+            check.test(words, rows.toString(), "carryOut() = " + (-1000 - fault),
+                "count(11) = " + signs.length() + "; count(10) = 0");
         } else {
             check.test(words, rows.toString(), "carryOut() = " + orders, "count(11) = 0; count(10) = 1");
         }
@@ -209,7 +210,8 @@ final class RecordBoundaries {
     }
 
     private void faults() {
-        String words = "The fault of the text is the index, from 0, of the first character that is not allowed at its place, or the "
+        String words = "The fault of the text is the index, from 0, of the first character that is not allowed at "
+        + "its place, or the "
             + "length of the text if it ends too early (as the empty text does).";
         fault(words, "", 0);
         fault(words, "q", 0);
@@ -238,17 +240,22 @@ final class RecordBoundaries {
             count(9) = 0; restore(0) = ILLEGAL_STATE; restore(1) = ILLEGAL_STATE
             take(-1) = INVALID_ARGUMENT; take(2) = INVALID_ARGUMENT
             restore(-1) = INVALID_ARGUMENT; restore(2) = INVALID_ARGUMENT""");
-        check.test(words, "take(0) = 0; count(9) = 1; restore(1) = ILLEGAL_STATE; restore(0) = 0; take(1) = 0; count(9) = 2; restore(1) = 0");
-        check.test(words, "take(1) = 0; count(9) = 1; restore(0) = ILLEGAL_STATE; restore(1) = 0; take(1) = 0; count(9) = 1");
+        check.test(words, """
+            take(0) = 0; count(9) = 1; restore(1) = ILLEGAL_STATE; restore(0) = 0; take(1) = 0; count(9) = 2
+            restore(1) = 0""");
+        check.test(words,
+            "take(1) = 0; count(9) = 1; restore(0) = ILLEGAL_STATE; restore(1) = 0; take(1) = 0; count(9) = 1");
         String keeps = "A snapshot keeps everything but the text, the slots and the history.";
         check.test(keeps, """
             # the text
             write t0,0
-            take(0) = 0; append(59) = 5; restore(0) = 0; count(11) = 5; clearText() = 5; restore(0) = 0; count(11) = 0""");
+            take(0) = 0; append(59) = 5; restore(0) = 0; count(11) = 5; clearText() = 5; restore(0) = 0
+            count(11) = 0""");
         check.test(keeps, """
             # the slots: what slot 1 holds and that it holds something stays
             setIsland(7, 1) = 1; take(0) = 0; setIsland(8, 1) = 2; take(1) = 0; setIsland(9, 1) = 3
-            restore(0) = 0; count(7) = 1; count(9) = 2; restore(1) = 0; count(7) = 2; count(9) = 2; restore(0) = 0; count(7) = 1""");
+            restore(0) = 0; count(7) = 1; count(9) = 2; restore(1) = 0; count(7) = 2; count(9) = 2; restore(0) = 0
+            count(7) = 1""");
         check.test(keeps, """
             # the history
             take(0) = 0; count(10) = 1; setIsland(8, 1) = 1; setIsland(9, 1) = 2; count(10) = 3
@@ -258,15 +265,19 @@ final class RecordBoundaries {
     private void restoring() {
         check.test("To restore it makes all this as it was.", RICH, """
             # turn, part, wind, hands, timber, ships, islands and captures, each changed after the snapshot
-            clearText() = 6; cut(2) = 0; sail(2, 2) = 31; repair(2, 0) = ILLEGAL_STATE; setIsland(51, 1) = 2; setIsland(50, 0) = 1
+            clearText() = 6; cut(2) = 0; sail(2, 2) = 31; repair(2, 0) = ILLEGAL_STATE; setIsland(51, 1) = 2
+            setIsland(50, 0) = 1
             setTimber(0, 0) = 10; setTimber(1, 1) = 31; addShip(0, 80, 5, 1, 1, 1) = 3; grapple(0, 2) = 80
             fire(1, 0, 0) = 21; end() = 1; tell(1, 1) = 2; tell(0, 4) = 3; end() = 2; tell(0, 1) = 1; count(0) = 2
             restore(1) = 0
-            count(0) = 0; count(1) = 1; count(2) = 5; count(3) = 3; count(4) = 3; count(5) = 3; count(6) = 7; count(7) = 1; count(8) = 0
+            count(0) = 0; count(1) = 1; count(2) = 5; count(3) = 3; count(4) = 3; count(5) = 3; count(6) = 7
+            count(7) = 1; count(8) = 0
             captain(0, 0) = 31; captain(1, 0) = 62; captain(0, 1) = NONE; captain(0, 2) = 10; captain(1, 2) = 31
             ship(0, 1) = 40; ship(0, 3) = 20; ship(0, 5) = 40; ship(0, 7) = 2; ship(0, 9) = 2; ship(0, 10) = 2
-            ship(1, 3) = 11; ship(1, 4) = 6; ship(1, 5) = 17; ship(1, 6) = 7; ship(1, 7) = NONE; ship(1, 9) = 0; ship(1, 10) = 4
-            ship(2, 2) = 3; ship(2, 7) = 0; ship(2, 10) = 0; ship(3, 0) = INVALID_ARGUMENT; on(50) = 8; on(51) = NONE; on(80) = NONE
+            ship(1, 3) = 11; ship(1, 4) = 6; ship(1, 5) = 17; ship(1, 6) = 7; ship(1, 7) = NONE; ship(1, 9) = 0
+            ship(1, 10) = 4
+            ship(2, 2) = 3; ship(2, 7) = 0; ship(2, 10) = 0; ship(3, 0) = INVALID_ARGUMENT; on(50) = 8; on(51) = NONE
+            on(80) = NONE
             # and that before the cards were told
             restore(0) = 0
             count(1) = 0; count(2) = 0; count(3) = 2; count(4) = 0; count(8) = 0; captain(0, 0) = 63; captain(1, 0) = 63
@@ -275,11 +286,14 @@ final class RecordBoundaries {
         check.test("To restore it makes all this as it was.", """
             # a capture, a sunk ship and a card that one captain has told
             addShip(0, 40, 0, 8, 40, 9) = 0; addShip(1, 41, 0, 8, 1, 1) = 1; addShip(1, 48, 0, 8, 8, 8) = 2; take(0) = 0
-            tell(0, 0) = 1; tell(1, 0) = 3; grapple(0, 1) = 41; fire(0, 1, 2) = 27; end() = 1; tell(1, 5) = 2; take(1) = 1
+            tell(0, 0) = 1; tell(1, 0) = 3; grapple(0, 1) = 41; fire(0, 1, 2) = 27; end() = 1; tell(1, 5) = 2
+            take(1) = 1
             count(8) = 1; count(6) = 3; restore(0) = 0
-            count(8) = 0; count(6) = 7; ship(1, 0) = 1; ship(1, 5) = 1; ship(0, 5) = 40; on(48) = 2; captain(1, 1) = NONE
+            count(8) = 0; count(6) = 7; ship(1, 0) = 1; ship(1, 5) = 1; ship(0, 5) = 40; on(48) = 2
+            captain(1, 1) = NONE
             restore(1) = 1
-            count(8) = 1; count(6) = 3; ship(1, 0) = 0; ship(1, 5) = 19; ship(0, 5) = 20; on(48) = NONE; captain(1, 1) = 5; count(4) = 2
+            count(8) = 1; count(6) = 3; ship(1, 0) = 0; ship(1, 5) = 19; ship(0, 5) = 20; on(48) = NONE
+            captain(1, 1) = 5; count(4) = 2
             ship(0, 9) = 2; tell(1, 4) = ILLEGAL_STATE; tell(0, 1) = 3""");
     }
 
@@ -293,7 +307,8 @@ final class RecordBoundaries {
         for (int i = 1; i <= 8; i++) {
             rows.append("setIsland(" + i + ", 1) = " + i + "; count(10) = " + Math.min(i, 6) + "\n");
         }
-        check.test(words, rows.toString(), "undo() = 5; count(10) = 5; setIsland(20, 1) = 8; count(10) = 6; setIsland(21, 1) = 9; count(10) = 6");
+        check.test(words, rows.toString(),
+            "undo() = 5; count(10) = 5; setIsland(20, 1) = 8; count(10) = 6; setIsland(21, 1) = 9; count(10) = 6");
         check.test(words, """
             # the text is no part of a state
             setIsland(1, 1) = 1
@@ -304,28 +319,44 @@ final class RecordBoundaries {
             setIsland(1, 1) = 1; take(0) = 0; setIsland(2, 1) = 2; take(0) = 0; take(1) = 0; count(9) = 2
             undo() = 4; count(9) = 1; restore(1) = ILLEGAL_STATE; undo() = 3; restore(0) = 0; count(7) = 1
             undo() = 3; undo() = 2; undo() = 1; count(9) = 0; restore(0) = ILLEGAL_STATE""");
+        for (int slot = 0; slot < 2; slot++) {
+            check.test(words, """
+                # what a slot held before it was filled again comes back too
+                setIsland(1, 1) = 1; take(%1$d) = 0; setIsland(2, 1) = 2; take(%1$d) = 0; setIsland(3, 1) = 3
+                restore(%1$d) = 0; count(7) = 2
+                undo() = 5; undo() = 4; undo() = 3; restore(%1$d) = 0; count(7) = 1; count(9) = 1""".formatted(slot));
+        }
         check.test("when a seventh one is recorded, the oldest one is dropped.", """
-            setIsland(1, 1) = 1; setIsland(2, 1) = 2; setIsland(3, 1) = 3; setIsland(4, 1) = 4; setIsland(5, 1) = 5; setIsland(6, 1) = 6
-            count(10) = 6; undo() = 5; undo() = 4; undo() = 3; undo() = 2; undo() = 1; undo() = 0; count(7) = 0; undo() = ILLEGAL_STATE""");
+            setIsland(1, 1) = 1; setIsland(2, 1) = 2; setIsland(3, 1) = 3; setIsland(4, 1) = 4; setIsland(5, 1) = 5
+            setIsland(6, 1) = 6
+            count(10) = 6; undo() = 5; undo() = 4; undo() = 3; undo() = 2; undo() = 1; undo() = 0; count(7) = 0
+            undo() = ILLEGAL_STATE""");
         check.test("when a seventh one is recorded, the oldest one is dropped.", """
-            setIsland(1, 1) = 1; setIsland(2, 1) = 2; setIsland(3, 1) = 3; setIsland(4, 1) = 4; setIsland(5, 1) = 5; setIsland(6, 1) = 6
+            setIsland(1, 1) = 1; setIsland(2, 1) = 2; setIsland(3, 1) = 3; setIsland(4, 1) = 4; setIsland(5, 1) = 5
+            setIsland(6, 1) = 6
             setIsland(7, 1) = 7; count(10) = 6
-            undo() = 5; undo() = 4; undo() = 3; undo() = 2; undo() = 1; undo() = 0; count(7) = 1; undo() = ILLEGAL_STATE; on(1) = 8; on(2) = NONE""");
+            undo() = 5; undo() = 4; undo() = 3; undo() = 2; undo() = 1; undo() = 0; count(7) = 1
+            undo() = ILLEGAL_STATE; on(1) = 8; on(2) = NONE""");
         check.test("when a seventh one is recorded, the oldest one is dropped.", """
             # a refused call records nothing, so nothing is dropped
-            setIsland(1, 1) = 1; setIsland(2, 1) = 2; setIsland(3, 1) = 3; setIsland(4, 1) = 4; setIsland(5, 1) = 5; setIsland(6, 1) = 6
+            setIsland(1, 1) = 1; setIsland(2, 1) = 2; setIsland(3, 1) = 3; setIsland(4, 1) = 4; setIsland(5, 1) = 5
+            setIsland(6, 1) = 6
             setIsland(81, 1) = INVALID_ARGUMENT; restore(0) = ILLEGAL_STATE; count(10) = 6
             undo() = 5; undo() = 4; undo() = 3; undo() = 2; undo() = 1; undo() = 0; count(7) = 0""");
     }
 
     private void recording() {
-        String words = "Every successful call of a method that is called an action records the state before it (also if nothing "
+        String words = "Every successful call of a method that is called an action records the state before it "
+        + "(also if nothing "
             + "changes by it)";
         String[] idle = {"setIsland(7, 0) = 0", "setTimber(0, 10) = 10", "setTimber(1, 10) = 10"};
         for (String row : idle) {
-            check.test(words, row, "count(10) = 1", row, "count(10) = 2; undo() = 1; undo() = 0; undo() = ILLEGAL_STATE");
+            check.test(words, row, "count(10) = 1", row,
+                "count(10) = 2; undo() = 1; undo() = 0; undo() = ILLEGAL_STATE");
         }
-        check.test(words, "take(0) = 0; take(0) = 0; restore(0) = 0; restore(0) = 0; count(10) = 4; count(9) = 1; undo() = 3; count(9) = 1");
+        check.test(words, """
+            take(0) = 0; take(0) = 0; restore(0) = 0; restore(0) = 0; count(10) = 4; count(9) = 1; undo() = 3
+            count(9) = 1""");
         check.test(words, "write x0", "carryOut() = 0; count(10) = 1; undo() = 0");
         check.test(words, """
             # a path that ends where it began
@@ -335,7 +366,8 @@ final class RecordBoundaries {
             # the others are no actions: append, clearText, undo and those that look
             write t0,0
             clearText() = 4; append(101) = 1; clearText() = 1; count(10) = 0
-            addShip(0, 40, 1, 8, 40, 0) = 0; count(10) = 1; captain(0, 0) = 63; ship(0, 0) = 0; on(40) = 0; targets(0, 0) = 0
+            addShip(0, 40, 1, 8, 40, 0) = 0; count(10) = 1; captain(0, 0) = 63; ship(0, 0) = 0; on(40) = 0
+            targets(0, 0) = 0
             hits(0, 0, 0) = INVALID_ARGUMENT; way(0, 49, 0) = 1; reach(0) = ?; windBy(0, 0) = 1; bestCard(0, 49, 0) = 0
             threats(0) = 0; strength(0) = 35; count(10) = 1; undo() = 0; count(10) = 0""");
     }
@@ -345,7 +377,8 @@ final class RecordBoundaries {
         check.test(words, """
             setTimber(0, 11) = 10; setTimber(0, 12) = 11; setTimber(0, 13) = 12
             undo() = 2; captain(0, 2) = 12; undo() = 1; captain(0, 2) = 11
-            setTimber(0, 20) = 11; undo() = 1; captain(0, 2) = 11; undo() = 0; captain(0, 2) = 10; undo() = ILLEGAL_STATE""");
+            setTimber(0, 20) = 11; undo() = 1; captain(0, 2) = 11; undo() = 0; captain(0, 2) = 10
+            undo() = ILLEGAL_STATE""");
         String before = """
             addShip(0, 40, 0, 8, 40, 3) = 0; addShip(1, 49, 0, 7, 20, 8) = 1; addShip(1, 31, 3, 8, 40, 9) = 2
             setIsland(50, 1) = 1; take(0) = 0; tell(0, 5) = 1
@@ -376,21 +409,28 @@ final class RecordBoundaries {
 
     private void errorsChangeNothing() {
         check.section("Errors");
-        String[] refused = {"setIsland(81, 1) = INVALID_ARGUMENT", "setIsland(40, 1) = ILLEGAL_STATE", "setIsland(40, 0) = ILLEGAL_STATE",
+        String[] refused = {"setIsland(81, 1) = INVALID_ARGUMENT", "setIsland(40, 1) = ILLEGAL_STATE",
+            "setIsland(40, 0) = ILLEGAL_STATE",
             "addShip(0, 80, 0, 9, 1, 0) = INVALID_ARGUMENT", "addShip(0, 40, 0, 1, 1, 0) = ILLEGAL_STATE",
-            "addShip(0, 50, 0, 1, 1, 0) = ILLEGAL_STATE", "setTimber(0, 100) = INVALID_ARGUMENT", "tell(0, 6) = INVALID_ARGUMENT",
-            "tell(0, 1) = ILLEGAL_STATE", "sail(0, 4) = INVALID_ARGUMENT", "sail(0, 1) = ILLEGAL_STATE", "sail(1, 1) = ILLEGAL_STATE", "sail(1, 21111) = ILLEGAL_STATE",
+            "addShip(0, 50, 0, 1, 1, 0) = ILLEGAL_STATE", "setTimber(0, 100) = INVALID_ARGUMENT",
+                "tell(0, 6) = INVALID_ARGUMENT",
+            "tell(0, 1) = ILLEGAL_STATE", "sail(0, 4) = INVALID_ARGUMENT", "sail(0, 1) = ILLEGAL_STATE",
+                "sail(1, 1) = ILLEGAL_STATE", "sail(1, 21111) = ILLEGAL_STATE",
             "fire(0, 1, 0) = INVALID_ARGUMENT", "fire(0, 1, 1) = ILLEGAL_STATE", "fire(1, 1, 0) = ILLEGAL_STATE",
-            "grapple(0, 0) = INVALID_ARGUMENT", "grapple(1, 0) = ILLEGAL_STATE", "cut(3) = INVALID_ARGUMENT", "cut(1) = ILLEGAL_STATE",
-            "repair(0, 3) = INVALID_ARGUMENT", "repair(1, 0) = ILLEGAL_STATE", "repair(0, 1) = ILLEGAL_STATE", "take(2) = INVALID_ARGUMENT",
-            "restore(2) = INVALID_ARGUMENT", "append(0) = INVALID_ARGUMENT", "append(256) = INVALID_ARGUMENT", "carryOut() = -1005"};
+            "grapple(0, 0) = INVALID_ARGUMENT", "grapple(1, 0) = ILLEGAL_STATE", "cut(3) = INVALID_ARGUMENT",
+                "cut(1) = ILLEGAL_STATE",
+            "repair(0, 3) = INVALID_ARGUMENT", "repair(1, 0) = ILLEGAL_STATE", "repair(0, 1) = ILLEGAL_STATE",
+                "take(2) = INVALID_ARGUMENT",
+            "restore(2) = INVALID_ARGUMENT", "append(0) = INVALID_ARGUMENT", "append(256) = INVALID_ARGUMENT",
+                "carryOut() = -1005"};
         for (String row : refused) {
             check.test("A call that returns an error code changes nothing.", RICH, row);
         }
         check.test("A call that returns an error code changes nothing.", """
             end() = ILLEGAL_STATE; undo() = ILLEGAL_STATE; restore(0) = ILLEGAL_STATE; carryOut() = -1000
             tell(0, 0) = 1; end() = ILLEGAL_STATE; take(0) = 0; restore(1) = ILLEGAL_STATE""");
-        check.test("A call that returns an error code changes nothing.", "write " + "e;".repeat(50), "append(101) = CAPACITY_EXCEEDED",
+        check.test("A call that returns an error code changes nothing.", "write " + "e;".repeat(50),
+            "append(101) = CAPACITY_EXCEEDED",
             "carryOut() = -1100; undo() = ILLEGAL_STATE");
         check.test("A call that returns an error code changes nothing.", """
             # a path of which only the last step is not possible
@@ -410,20 +450,26 @@ final class RecordBoundaries {
             addShip(0, 10, 0, 1, 41, 0) = INVALID_ARGUMENT; addShip(0, 5, 0, 9, 1, 0) = INVALID_ARGUMENT""");
         check.test(words, """
             addShip(0, 40, 0, 1, 1, 0) = 0
-            setIsland(40, 2) = INVALID_ARGUMENT; tell(0, 0) = 1; tell(0, 6) = INVALID_ARGUMENT; tell(2, 0) = INVALID_ARGUMENT
+            setIsland(40, 2) = INVALID_ARGUMENT; tell(0, 0) = 1; tell(0, 6) = INVALID_ARGUMENT
+            tell(2, 0) = INVALID_ARGUMENT
             # in the part of the cards
-            sail(1, 1) = INVALID_ARGUMENT; sail(0, 0) = INVALID_ARGUMENT; fire(0, 1, 0) = INVALID_ARGUMENT; fire(0, 2, 1) = INVALID_ARGUMENT
-            grapple(0, 0) = INVALID_ARGUMENT; grapple(0, 1) = INVALID_ARGUMENT; cut(1) = INVALID_ARGUMENT; repair(0, 3) = INVALID_ARGUMENT
+            sail(1, 1) = INVALID_ARGUMENT; sail(0, 0) = INVALID_ARGUMENT; fire(0, 1, 0) = INVALID_ARGUMENT
+            fire(0, 2, 1) = INVALID_ARGUMENT
+            grapple(0, 0) = INVALID_ARGUMENT; grapple(0, 1) = INVALID_ARGUMENT; cut(1) = INVALID_ARGUMENT
+            repair(0, 3) = INVALID_ARGUMENT
             repair(1, 0) = INVALID_ARGUMENT; restore(2) = INVALID_ARGUMENT""");
-        check.test(words, "write " + "q".repeat(100), "append(0) = INVALID_ARGUMENT; append(256) = INVALID_ARGUMENT; append(1) = CAPACITY_EXCEEDED");
+        check.test(words, "write " + "q".repeat(100),
+            "append(0) = INVALID_ARGUMENT; append(256) = INVALID_ARGUMENT; append(1) = CAPACITY_EXCEEDED");
     }
 
     private void none() {
         String words = "NONE is no error, and it is returned only if no error condition applies.";
         check.test(words, """
             addShip(0, 40, 0, 8, 8, 9) = 0; addShip(1, 44, 0, 8, 8, 9) = 1
-            hits(0, 1, 1) = NONE; hits(0, 2, 1) = INVALID_ARGUMENT; hits(0, 1, 0) = INVALID_ARGUMENT; hits(0, 1, 2) = INVALID_ARGUMENT
-            way(0, 40, 0) = NONE; way(0, 40, 3) = INVALID_ARGUMENT; way(0, 80, 0) = NONE; way(0, 81, 0) = INVALID_ARGUMENT
+            hits(0, 1, 1) = NONE; hits(0, 2, 1) = INVALID_ARGUMENT; hits(0, 1, 0) = INVALID_ARGUMENT
+            hits(0, 1, 2) = INVALID_ARGUMENT
+            way(0, 40, 0) = NONE; way(0, 40, 3) = INVALID_ARGUMENT; way(0, 80, 0) = NONE
+            way(0, 81, 0) = INVALID_ARGUMENT
             bestCard(0, 40, 0) = NONE; bestCard(0, 40, 2) = INVALID_ARGUMENT; bestCard(2, 40, 0) = INVALID_ARGUMENT
             ship(0, 7) = NONE; ship(2, 7) = INVALID_ARGUMENT; captain(0, 1) = NONE; captain(2, 1) = INVALID_ARGUMENT
             on(0) = NONE; on(81) = INVALID_ARGUMENT""");
@@ -435,14 +481,17 @@ final class RecordBoundaries {
     }
 
     private void constants() {
-        check.test("The constants: `INVALID_ARGUMENT = -1`: An argument is out of range, or names something that does not exist.", """
+        check.test("The constants: `INVALID_ARGUMENT = -1`: An argument is out of range, or names something that "
+            + "does not exist.", """
             INVALID_ARGUMENT = -1
             on(81) = -1; ship(0, 0) = -1; targets(0, 0) = -1; count(12) = -1""");
         check.test("names something that does not exist.", """
             ship(0, 0) = INVALID_ARGUMENT; addShip(0, 40, 0, 1, 1, 0) = 0; ship(0, 0) = 0; ship(1, 0) = INVALID_ARGUMENT
             undo() = 0; ship(0, 0) = INVALID_ARGUMENT""");
-        check.test("`ILLEGAL_STATE = -2`: The call is not possible in the present state.", "ILLEGAL_STATE = -2; end() = -2; undo() = -2; restore(1) = -2");
-        check.test("`CAPACITY_EXCEEDED = -3`: There is no room.", "CAPACITY_EXCEEDED = -3", "write " + "e".repeat(100), "append(1) = -3");
+        check.test("`ILLEGAL_STATE = -2`: The call is not possible in the present state.",
+            "ILLEGAL_STATE = -2; end() = -2; undo() = -2; restore(1) = -2");
+        check.test("`CAPACITY_EXCEEDED = -3`: There is no room.", "CAPACITY_EXCEEDED = -3", "write " + "e".repeat(100),
+            "append(1) = -3");
         check.test("`NONE = -9`: There is no such value.", "NONE = -9; on(0) = -9; captain(0, 1) = -9");
     }
 
@@ -452,11 +501,14 @@ final class RecordBoundaries {
         check.plain("interface says: ---- snapshots.");
         check.plain("interface says: ---- text.");
         check.plain("interface says: ---- looking.");
-        String[] calls = {"targets(0, 0)", "targets(0, 1)", "hits(0, 1, 1)", "hits(2, 1, 0)", "way(0, 41, 0)", "way(1, 57, 2)", "way(1, 50, 1)",
-            "reach(0)", "reach(1)", "windBy(5, 5)", "bestCard(0, 41, 0)", "bestCard(1, 57, 1)", "bestCard(1, 50, 0)", "threats(0)", "threats(1)",
+        String[] calls = {"targets(0, 0)", "targets(0, 1)", "hits(0, 1, 1)", "hits(2, 1, 0)", "way(0, 41, 0)",
+            "way(1, 57, 2)", "way(1, 50, 1)",
+            "reach(0)", "reach(1)", "windBy(5, 5)", "bestCard(0, 41, 0)", "bestCard(1, 57, 1)", "bestCard(1, 50, 0)",
+                "threats(0)", "threats(1)",
             "strength(0)", "strength(1)"};
         check.changesNothing("what could be, which changes nothing", RICH, calls);
-        check.changesNothing("what could be, which changes nothing", "addShip(0, 40, 0, 8, 8, 9) = 0; addShip(1, 49, 1, 8, 8, 9) = 1; tell(1, 3) = 2",
+        check.changesNothing("what could be, which changes nothing",
+            "addShip(0, 40, 0, 8, 8, 9) = 0; addShip(1, 49, 1, 8, 8, 9) = 1; tell(1, 3) = 2",
             "way(0, 41, 0)", "bestCard(0, 41, 0)", "bestCard(1, 58, 1)", "reach(1)", "windBy(0, 3)", "hits(0, 1, 1)");
         String part = "it plays no part which part of the turn this is and what was done in it.";
         check.test(part, """
@@ -464,7 +516,8 @@ final class RecordBoundaries {
             addShip(0, 40, 1, 8, 8, 1) = 0; addShip(1, 48, 1, 8, 8, 1) = 1
             targets(0, 1) = 2; hits(0, 1, 1) = 3; threats(1) = 1; threats(0) = 2; way(0, 58, 0) = 11; strength(0) = 20
             tell(0, 1) = 1; way(0, 58, 0) = 11; bestCard(0, 58, 1) = 4; tell(1, 5) = 3
-            targets(0, 1) = 2; hits(0, 1, 1) = 3; threats(1) = 1; threats(0) = 2; way(0, 58, 0) = 11; reach(0) = 3; strength(0) = 20
+            targets(0, 1) = 2; hits(0, 1, 1) = 3; threats(1) = 1; threats(0) = 2; way(0, 58, 0) = 11; reach(0) = 3
+            strength(0) = 20
             fire(0, 1, 1) = 3; sail(0, 23) = 40; sail(1, 2) = 48; ship(0, 10) = 3
             # ship 0 has sailed and fired, and can do neither now
             targets(0, 1) = 2; hits(0, 1, 1) = 3; threats(1) = 1; threats(0) = 0; way(0, 58, 0) = 11; reach(0) = 3
