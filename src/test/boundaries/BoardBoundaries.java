@@ -39,12 +39,12 @@ final class BoardBoundaries {
         }
         rows.append("setIsland(80, 1) = 1\n");
         check.test("An object is used for at most 512 calls after it has been made; what later calls answer is free.",
-            rows.toString(), "# the last call that the document tells about", "on(80) = 8", "on(80) = ?");
+            rows.toString(), "# the last call that the document tells about", "on(80) = 8");
         rows.setLength(0);
         for (int i = 0; i < 256; i++) {
             rows.append("take(0) = 0; undo() = 0\n");
         }
-        check.test("An object is used for at most 512 calls", rows.toString(), "end() = ?; undo() = ?");
+        check.test("An object is used for at most 512 calls", rows.toString());
     }
 
     private void terms() {

@@ -5,11 +5,10 @@ import java.util.List;
  * Runs the tests of the document's sentences. A test is a run of rows on a new object, each row a call
  * and the answer that is due: "sail(0, 21) = 29". Rows stand on lines of their own or behind ";"; a line
  * "write e;e" appends its characters to the text; a line that begins with "#" says why. After every
- * call that is refused, all that the other methods tell has to be as it was before it.
+ * call that is refused, all that the other methods tell has to be as it was before it. Every object
+ * counts its calls, so that no run asks it more than the document tells about.
  */
 final class Boundaries {
-    /** The document promises nothing about later calls, so no test asks an object more. */
-    private static final int MOST_CALLS = 512;
     private static final int MOST_STATES = 6;
     private static final int FREE = Integer.MIN_VALUE;
     private static final int[] BESIDE = {-1, 0, 1};
@@ -140,7 +139,7 @@ final class Boundaries {
     // ---- a run
 
     private List<Call> run(String rows) {
-        WindCardShips game = new WindCardShips();
+        CountedShips game = new CountedShips();
         List<Call> played = new ArrayList<>();
         for (String line : rows.split("\n")) {
             if (line.trim().startsWith("#")) {
@@ -170,7 +169,7 @@ final class Boundaries {
         return rows;
     }
 
-    private void play(WindCardShips game, List<Call> played, String row) {
+    private void play(CountedShips game, List<Call> played, String row) {
         int sign = row.lastIndexOf(" = ");
         if (sign < 0) {
             throw new IllegalArgumentException("no row: " + row);
@@ -182,9 +181,6 @@ final class Boundaries {
         checks++;
         if (due != FREE && got != due) {
             tell(call + " answered " + got + ", due is " + due + ", after " + played);
-        }
-        if (due != FREE && played.size() >= MOST_CALLS) {
-            tell("the run is too long");
         }
         if (isError(due)) {
             refusals++;
@@ -203,10 +199,7 @@ final class Boundaries {
     private void compareAround(List<Call> before, Call call) {
         int ships = replay(before).count(5);
         for (List<Call> part : View.parts(ships)) {
-            if (before.size() + 2 * part.size() + 1 > MOST_CALLS) {
-                tell("too long a run to look around " + call);
-            }
-            WindCardShips game = replay(before);
+            CountedShips game = replay(before);
             int[] then = View.of(game, part);
             call.on(game);
             compare(call + " changed", part, then, View.of(game, part));
@@ -218,10 +211,7 @@ final class Boundaries {
     private void compareLater(List<Call> before, Call call) {
         for (List<Call> later : View.later()) {
             List<Call> looks = View.afterwards(later);
-            if (before.size() + 1 + looks.size() > MOST_CALLS) {
-                tell("too long a run to look behind " + call);
-            }
-            WindCardShips with = replay(before);
+            CountedShips with = replay(before);
             call.on(with);
             compare(call + " and " + later + " changed", looks, View.of(replay(before), looks), View.of(with, looks));
         }
@@ -237,8 +227,8 @@ final class Boundaries {
         }
     }
 
-    private static WindCardShips replay(List<Call> calls) {
-        WindCardShips game = new WindCardShips();
+    private static CountedShips replay(List<Call> calls) {
+        CountedShips game = new CountedShips();
         for (Call call : calls) {
             call.on(game);
         }

@@ -46,12 +46,12 @@ final class Call {
         return named == null ? Integer.parseInt(text) : named;
     }
 
-    int on(WindCardShips game) {
+    int on(CountedShips game) {
         if (method == null) {
             return constant;
         }
         try {
-            return (Integer) method.invoke(game, arguments);
+            return (Integer) method.invoke(game.next(), arguments);
         } catch (ReflectiveOperationException e) {
             throw new IllegalStateException(text + " threw", e);
         }

@@ -16,7 +16,7 @@ final class View {
     private View() {
     }
 
-    static int[] of(WindCardShips game, List<Call> looks) {
+    static int[] of(CountedShips game, List<Call> looks) {
         int[] answers = new int[looks.size()];
         for (int i = 0; i < answers.length; i++) {
             answers[i] = looks.get(i).on(game);

@@ -6,6 +6,7 @@ import java.util.HashSet;
 import java.util.List;
 import java.util.Set;
 import java.util.TreeSet;
+import java.util.function.ToIntFunction;
 import java.util.regex.Matcher;
 import java.util.regex.Pattern;
 
@@ -15,8 +16,17 @@ import java.util.regex.Pattern;
  * tries every path, and looks for the fault of a text by a pattern.
  */
 public final class ModelRuns {
-    private static final int RUNS = 500;
-    private static final int CALLS = 500;
+    private static final int RUNS = 1500;
+    /** After so many acts of a run all that the methods tell is compared, each fifth time with all ways. */
+    private static final int LOOKS_APART = 10;
+    private static final int DEEP_LOOKS_APART = 5;
+    /** So many calls have to be left to an object that has repeated a run, or it would tell too little. */
+    private static final int CALLS_TO_LOOK = 100;
+    /** Some more than a text can hold. */
+    private static final int MOST_SIGNS = 105;
+    /** The most calls that it takes to write a text and to carry it out. */
+    private static final int CALLS_OF_TEXT = MOST_SIGNS + 3;
+    private static final int NO_KIND = -1;
 
     private static long seed;
     private static int wrong = 0;
@@ -31,7 +41,7 @@ public final class ModelRuns {
         }
         String[] names = {"setIsland", "addShip", "setTimber", "tell", "sail", "fire", "grapple", "cut", "repair",
             "end", "take", "restore", "undo", "append", "clearText", "carryOut", "sunk", "captured", "twice captured",
-            "path of 3 or more", "carried out 3 or more", "stopped early", "way", "bestCard"};
+            "path of 3 or more", "carried out 3 or more", "stopped early", "way", "bestCard", "over the own hex"};
         StringBuilder told = new StringBuilder();
         for (int i = 0; i < names.length; i++) {
             told.append(names[i]).append(' ').append(successes[i]).append(i < names.length - 1 ? ", " : "");
@@ -56,14 +66,32 @@ public final class ModelRuns {
         return random(100) < percent;
     }
 
-    /** One run: the program, the model, and the calls that were made. */
+    private static int[] numbers(int low, int high) {
+        int[] all = new int[Math.max(0, high - low + 1)];
+        for (int i = 0; i < all.length; i++) {
+            all[i] = low + i;
+        }
+        return all;
+    }
+
+    /** A call of a run, as it is told, as it is made, and the answer of the model. */
+    private record Step(String text, ToIntFunction<Ships> call, int due) {
+    }
+
+    /**
+     * One run: the program, the model, and the calls that were made. An object is asked no more calls
+     * than the document tells about: so what is looked at on the way is asked of other objects, of
+     * which each repeats the run so far and then has its last calls to be looked at.
+     */
     private static final class Run {
         final int number;
-        final WindCardShips x = new WindCardShips();
+        final CountedShips x = new CountedShips();
         final Model m = new Model();
-        final List<String> calls = new ArrayList<>();
+        final List<Step> steps = new ArrayList<>();
         final boolean crowded = chance(50);
         final boolean small = chance(50);
+        /** Another object that has repeated the run so far, or null if there is none. */
+        CountedShips repeated;
 
         Run(int number) {
             this.number = number;
@@ -76,28 +104,47 @@ public final class ModelRuns {
             }
             for (int i = 0; i < (crowded ? 4 : 12); i++) {
                 int hex = hex();
-                same("setIsland(" + hex + ", 1)", x.setIsland(hex, 1), m.setIsland(hex, 1), 0);
+                same("setIsland(" + hex + ", 1)", s -> s.setIsland(hex, 1), 0);
             }
-            for (int i = calls.size(); i < CALLS && wrong < 10; i++) {
+            int deep = random(DEEP_LOOKS_APART);
+            for (int acts = 1; x.callsLeft() > 0 && wrong < 10; acts++) {
                 act();
-                if (i % 10 == 0) {
-                    compareAll(i % 50 == 0);
+                if (acts % LOOKS_APART == 0 && x.callsLeft() >= CALLS_TO_LOOK) {
+                    compareAll(acts / LOOKS_APART % DEEP_LOOKS_APART == deep);
                 }
             }
         }
 
-        int same(String call, int got, int want, int kind) {
-            calls.add(call + " " + want);
-            answers++;
-            if (got != want) {
-                wrong++;
-                System.out.println("run " + number + ", after " + calls.size() + " calls: " + call + " answered " + got
-                    + ", the model " + want + "; before it: " + calls.subList(Math.max(0, calls.size() - 12), calls.size()));
+        /** A call of the run itself. */
+        int same(String text, ToIntFunction<Ships> call, int kind) {
+            int due = call.applyAsInt(m);
+            steps.add(new Step(text, call, due));
+            repeated = null;
+            return compare(text, call.applyAsInt(x), due, kind);
+        }
+
+        /** A call that changes nothing, asked of another object. */
+        void peek(String text, ToIntFunction<Ships> call, int kind) {
+            if (repeated == null || repeated.callsLeft() == 0) {
+                repeated = new CountedShips();
+                for (Step step : steps) {
+                    compare(step.text() + " repeated", step.call().applyAsInt(repeated), step.due(), NO_KIND);
+                }
             }
-            if (want >= 0 && kind >= 0) {
+            compare(text, call.applyAsInt(repeated), call.applyAsInt(m), kind);
+        }
+
+        int compare(String text, int got, int due, int kind) {
+            answers++;
+            if (got != due) {
+                wrong++;
+                System.out.println("run " + number + ", after " + steps.size() + " calls: " + text + " answered " + got
+                    + ", the model " + due + "; the last calls: " + steps.subList(Math.max(0, steps.size() - 12), steps.size()));
+            }
+            if (due >= 0 && kind != NO_KIND) {
                 successes[kind]++;
             }
-            return want;
+            return due;
         }
 
         int wild(int below) {
@@ -121,8 +168,7 @@ public final class ModelRuns {
 
         void launch() {
             int[] a = {wild(2), hex(), wild(6), 1 + wild(8), 1 + wild(small ? 9 : 40), wild(10)};
-            same("addShip" + Arrays.toString(a), x.addShip(a[0], a[1], a[2], a[3], a[4], a[5]),
-                m.addShip(a[0], a[1], a[2], a[3], a[4], a[5]), 1);
+            same("addShip" + Arrays.toString(a), s -> s.addShip(a[0], a[1], a[2], a[3], a[4], a[5]), 1);
         }
 
         int path() {
@@ -137,6 +183,17 @@ public final class ModelRuns {
                 path = path * 10 + 1 + random(chance(50) ? 1 : 3);
             }
             return path;
+        }
+
+        /** Some path; if there are steps enough, mostly one that leads over the hex of the beginning. */
+        int pathFor(int ship) {
+            int[] over = {12221, 13331, 122211, 133311, 212221, 122212};
+            return m.ship(ship, 8) >= 5 && chance(70) ? over[random(over.length)] : path();
+        }
+
+        int wayOrPath(int ship) {
+            int way = m.way(ship, hex(), 0);
+            return way > 0 ? way : path();
         }
 
         /** A ship, a side and a target; mostly such that the target can be fired at, if there is one. */
@@ -185,12 +242,12 @@ public final class ModelRuns {
             if (!moves && draw < 45) {
                 int captain = wild(2);
                 int card = card(captain);
-                same("tell(" + captain + ", " + card + ")", x.tell(captain, card), m.tell(captain, card), 3);
+                same("tell(" + captain + ", " + card + ")", s -> s.tell(captain, card), 3);
             } else if (draw < 62) {
                 move(random(22));
             } else if (draw < 72) {
                 snapshots(random(12));
-            } else if (draw < 82) {
+            } else if (draw < 82 && x.callsLeft() >= CALLS_OF_TEXT) {
                 text();
             } else if (draw < 86) {
                 setUp(random(5));
@@ -203,31 +260,28 @@ public final class ModelRuns {
             int hullBefore = m.now.floating();
             if (draw < 6) {
                 int ship = ship();
-                int path = path();
-                if (chance(30)) {
-                    int way = m.way(ship, hex(), 0);
-                    path = way > 0 ? way : path;
-                }
-                int answer = same("sail(" + ship + ", " + path + ")", x.sail(ship, path), m.sail(ship, path), 4);
+                int path = chance(30) ? wayOrPath(ship) : pathFor(ship);
+                int answer = same("sail(" + ship + ", " + path + ")", s -> s.sail(ship, path), 4);
                 successes[19] += answer >= 0 && path > 99 ? 1 : 0;
+                successes[24] += answer >= 0 && path > 9999 && String.valueOf(path).matches(".*1(222|333)1.*") ? 1 : 0;
             } else if (draw < 11) {
-                int[] s = shot();
-                same("fire" + Arrays.toString(s), x.fire(s[0], s[1], s[2]), m.fire(s[0], s[1], s[2]), 5);
+                int[] shot = shot();
+                same("fire" + Arrays.toString(shot), s -> s.fire(shot[0], shot[1], shot[2]), 5);
                 successes[16] += hullBefore - m.now.floating();
             } else if (draw < 15) {
                 int[] p = pair();
-                same("grapple" + Arrays.toString(p), x.grapple(p[0], p[1]), m.grapple(p[0], p[1]), 6);
+                same("grapple" + Arrays.toString(p), s -> s.grapple(p[0], p[1]), 6);
             } else if (draw < 16) {
                 int ship = ship();
-                same("cut(" + ship + ")", x.cut(ship), m.cut(ship), 7);
+                same("cut(" + ship + ")", s -> s.cut(ship), 7);
             } else if (draw < 19) {
                 int ship = ship();
                 int what = wild(3);
-                same("repair(" + ship + ", " + what + ")", x.repair(ship, what), m.repair(ship, what), 8);
+                same("repair(" + ship + ", " + what + ")", s -> s.repair(ship, what), 8);
             } else {
                 int before = m.now.captured;
                 int twice = m.now.recaptures;
-                same("end()", x.end(), m.end(), 9);
+                same("end()", s -> s.end(), 9);
                 successes[17] += m.now.captured - before;
                 successes[18] += m.now.recaptures - twice;
             }
@@ -236,11 +290,11 @@ public final class ModelRuns {
         void snapshots(int draw) {
             int slot = wild(2);
             if (draw < 3) {
-                same("take(" + slot + ")", x.take(slot), m.take(slot), 10);
+                same("take(" + slot + ")", s -> s.take(slot), 10);
             } else if (draw < 4) {
-                same("restore(" + slot + ")", x.restore(slot), m.restore(slot), 11);
+                same("restore(" + slot + ")", s -> s.restore(slot), 11);
             } else if (draw < 8) {
-                same("undo()", x.undo(), m.undo(), 12);
+                same("undo()", s -> s.undo(), 12);
             }
         }
 
@@ -248,12 +302,11 @@ public final class ModelRuns {
             if (draw == 0) {
                 int hex = hex();
                 int is = wild(2);
-                same("setIsland(" + hex + ", " + is + ")", x.setIsland(hex, is), m.setIsland(hex, is), 0);
+                same("setIsland(" + hex + ", " + is + ")", s -> s.setIsland(hex, is), 0);
             } else if (draw == 1) {
                 int captain = wild(2);
                 int timber = chance(50) ? random(6) : wild(100);
-                same("setTimber(" + captain + ", " + timber + ")", x.setTimber(captain, timber),
-                    m.setTimber(captain, timber), 2);
+                same("setTimber(" + captain + ", " + timber + ")", s -> s.setTimber(captain, timber), 2);
             } else {
                 launch();
             }
@@ -269,18 +322,19 @@ public final class ModelRuns {
                 spoil(text);
             }
             if (chance(90)) {
-                same("clearText()", x.clearText(), m.clearText(), 14);
+                same("clearText()", s -> s.clearText(), 14);
             }
-            for (int i = 0; i < text.length(); i++) {
-                same("append(" + (int) text.charAt(i) + ")", x.append(text.charAt(i)), m.append(text.charAt(i)), 13);
+            text.setLength(Math.min(text.length(), MOST_SIGNS));
+            for (char sign : text.toString().toCharArray()) {
+                same("append(" + (int) sign + ")", s -> s.append(sign), 13);
             }
             if (chance(5)) {
                 int sign = wild(256);
-                same("append(" + sign + ")", x.append(sign), m.append(sign), 13);
+                same("append(" + sign + ")", s -> s.append(sign), 13);
             }
             if (chance(90)) {
                 int written = m.ordersWritten();
-                int answer = same("carryOut()", x.carryOut(), m.carryOut(), 15);
+                int answer = same("carryOut()", s -> s.carryOut(), 15);
                 successes[20] += answer >= 3 ? 1 : 0;
                 successes[21] += answer >= 0 && answer < written ? 1 : 0;
             }
@@ -330,102 +384,101 @@ public final class ModelRuns {
         void look() {
             int ship = ship();
             int hex = hex();
-            int what = wild(11);
             int side = wild(2);
             int other = ship();
             int captain = wild(2);
+            int what = wild(3);
             switch (random(12)) {
                 case 0:
-                    same("count(" + (what + 1) + ")", x.count(what + 1), m.count(what + 1), -1);
+                    int number = wild(12);
+                    same("count(" + number + ")", s -> s.count(number), NO_KIND);
                     break;
                 case 1:
-                    what = wild(5);
-                    same("captain(" + captain + ", " + what + ")", x.captain(captain, what), m.captain(captain, what), -1);
+                    int value = wild(5);
+                    same("captain(" + captain + ", " + value + ")", s -> s.captain(captain, value), NO_KIND);
                     break;
                 case 2:
-                    same("ship(" + ship + ", " + what + ")", x.ship(ship, what), m.ship(ship, what), -1);
+                    int part = wild(11);
+                    same("ship(" + ship + ", " + part + ")", s -> s.ship(ship, part), NO_KIND);
                     break;
                 case 3:
-                    same("on(" + hex + ")", x.on(hex), m.on(hex), -1);
+                    same("on(" + hex + ")", s -> s.on(hex), NO_KIND);
                     break;
                 case 4:
-                    same("targets(" + ship + ", " + side + ")", x.targets(ship, side), m.targets(ship, side), -1);
+                    same("targets(" + ship + ", " + side + ")", s -> s.targets(ship, side), NO_KIND);
                     break;
                 case 5:
-                    same("hits(" + ship + ", " + side + ", " + other + ")", x.hits(ship, side, other),
-                        m.hits(ship, side, other), -1);
+                    same("hits(" + ship + ", " + side + ", " + other + ")", s -> s.hits(ship, side, other), NO_KIND);
                     break;
                 case 6:
-                    what = wild(3);
-                    same("way(" + ship + ", " + hex + ", " + what + ")", x.way(ship, hex, what), m.way(ship, hex, what), 22);
+                    same("way(" + ship + ", " + hex + ", " + what + ")", s -> s.way(ship, hex, what), 22);
                     break;
                 case 7:
-                    same("reach(" + ship + ")", x.reach(ship), m.reach(ship), -1);
+                    same("reach(" + ship + ")", s -> s.reach(ship), NO_KIND);
                     break;
                 case 8:
                     int one = wild(6);
                     int two = wild(6);
-                    same("windBy(" + one + ", " + two + ")", x.windBy(one, two), m.windBy(one, two), -1);
+                    same("windBy(" + one + ", " + two + ")", s -> s.windBy(one, two), NO_KIND);
                     break;
                 case 9:
-                    what = wild(2);
-                    same("bestCard(" + ship + ", " + hex + ", " + what + ")", x.bestCard(ship, hex, what),
-                        m.bestCard(ship, hex, what), 23);
+                    same("bestCard(" + ship + ", " + hex + ", " + side + ")", s -> s.bestCard(ship, hex, side), 23);
                     break;
                 case 10:
-                    same("threats(" + ship + ")", x.threats(ship), m.threats(ship), -1);
+                    same("threats(" + ship + ")", s -> s.threats(ship), NO_KIND);
                     break;
                 default:
-                    same("strength(" + captain + ")", x.strength(captain), m.strength(captain), -1);
+                    same("strength(" + captain + ")", s -> s.strength(captain), NO_KIND);
             }
         }
 
-        /** What can be looked at; these calls are not told of in the run. */
+        /** All that can be looked at, also by arguments right out of range. */
         void compareAll(boolean deep) {
-            int size = calls.size();
-            for (int what = -1; what <= 12; what++) {
-                same("count(" + what + ")", x.count(what), m.count(what), -1);
+            int ships = m.now.ships.size();
+            for (int what : numbers(-1, 12)) {
+                peek("count(" + what + ")", s -> s.count(what), NO_KIND);
             }
-            for (int captain = -1; captain <= 2; captain++) {
-                for (int what = -1; what <= 5; what++) {
-                    same("captain(" + captain + ", " + what + ")", x.captain(captain, what), m.captain(captain, what), -1);
+            for (int captain : numbers(-1, 2)) {
+                for (int what : numbers(-1, 5)) {
+                    peek("captain(" + captain + ", " + what + ")", s -> s.captain(captain, what), NO_KIND);
                 }
-                same("strength(" + captain + ")", x.strength(captain), m.strength(captain), -1);
+                peek("strength(" + captain + ")", s -> s.strength(captain), NO_KIND);
             }
-            for (int hex = -1; hex <= 81; hex++) {
-                same("on(" + hex + ")", x.on(hex), m.on(hex), -1);
+            for (int hex : numbers(-1, 81)) {
+                peek("on(" + hex + ")", s -> s.on(hex), NO_KIND);
             }
-            for (int ship = -1; ship <= m.now.ships.size(); ship++) {
-                compareShip(ship, deep);
-            }
-            while (calls.size() > size) {
-                calls.remove(calls.size() - 1);
+            for (int ship : numbers(-1, ships)) {
+                for (int what : numbers(-1, 11)) {
+                    peek("ship(" + ship + ", " + what + ")", s -> s.ship(ship, what), NO_KIND);
+                }
+                compareShots(ship, ships);
+                if (deep) {
+                    compareWays(ship);
+                }
             }
         }
 
-        void compareShip(int ship, boolean deep) {
-            for (int what = -1; what <= 11; what++) {
-                same("ship(" + ship + ", " + what + ")", x.ship(ship, what), m.ship(ship, what), -1);
-            }
-            same("threats(" + ship + ")", x.threats(ship), m.threats(ship), -1);
-            for (int side = -1; side <= 2; side++) {
-                same("targets(" + ship + ", " + side + ")", x.targets(ship, side), m.targets(ship, side), -1);
-                for (int other = -1; other <= m.now.ships.size(); other++) {
-                    same("hits(" + ship + ", " + side + ", " + other + ")", x.hits(ship, side, other),
-                        m.hits(ship, side, other), -1);
+        void compareShots(int ship, int ships) {
+            peek("threats(" + ship + ")", s -> s.threats(ship), NO_KIND);
+            for (int side : numbers(-1, 2)) {
+                peek("targets(" + ship + ", " + side + ")", s -> s.targets(ship, side), NO_KIND);
+                for (int other : numbers(-1, ships)) {
+                    peek("hits(" + ship + ", " + side + ", " + other + ")", s -> s.hits(ship, side, other), NO_KIND);
                 }
             }
-            if (!deep) {
-                return;
-            }
-            same("reach(" + ship + ")", x.reach(ship), m.reach(ship), -1);
-            for (int hex = -1; hex <= 81; hex += 1 + random(4)) {
-                for (int what = -1; what <= 3; what++) {
-                    same("way(" + ship + ", " + hex + ", " + what + ")", x.way(ship, hex, what), m.way(ship, hex, what), 22);
+        }
+
+        void compareWays(int ship) {
+            peek("reach(" + ship + ")", s -> s.reach(ship), NO_KIND);
+            for (int hex : numbers(-1, 81)) {
+                if (!chance(40)) {
+                    continue;
                 }
-                for (int what = -1; what <= 2 && hex % 5 == 0; what++) {
-                    same("bestCard(" + ship + ", " + hex + ", " + what + ")", x.bestCard(ship, hex, what),
-                        m.bestCard(ship, hex, what), 23);
+                for (int what : numbers(-1, 3)) {
+                    peek("way(" + ship + ", " + hex + ", " + what + ")", s -> s.way(ship, hex, what), 22);
+                }
+                for (int what : numbers(-1, hex % 5 == 0 ? 2 : -2)) {
+                    peek("bestCard(" + ship + ", " + hex + ", " + what + ")", s -> s.bestCard(ship, hex, what), 23);
                 }
             }
         }
@@ -512,7 +565,7 @@ public final class ModelRuns {
     private record Past(Sea sea, Sea slot0, Sea slot1) {
     }
 
-    private static final class Model {
+    private static final class Model implements Ships {
         static final int[][] NEXT = {{0, 1}, {1, 0}, {1, -1}, {0, -1}, {-1, 0}, {-1, 1}};
         static final String NUMBER = "(0|[1-9][0-9]{0,5})";
         static final Pattern ORDERS = orders();
@@ -572,7 +625,8 @@ public final class ModelRuns {
 
         // ---- actions
 
-        int setIsland(int hex, int is) {
+        @Override
+        public int setIsland(int hex, int is) {
             if (!in(hex, 0, 80) || !in(is, 0, 1)) {
                 return -1;
             }
@@ -588,7 +642,8 @@ public final class ModelRuns {
             return record(before, now.islands.size());
         }
 
-        int addShip(int captain, int hex, int heading, int sails, int crew, int guns) {
+        @Override
+        public int addShip(int captain, int hex, int heading, int sails, int crew, int guns) {
             if (!in(captain, 0, 1) || !in(hex, 0, 80) || !in(heading, 0, 5) || !in(sails, 1, 8) || !in(crew, 1, 40)
                 || !in(guns, 0, 9)) {
                 return -1;
@@ -612,7 +667,8 @@ public final class ModelRuns {
             return record(before, now.ships.size() - 1);
         }
 
-        int setTimber(int captain, int timber) {
+        @Override
+        public int setTimber(int captain, int timber) {
             if (!in(captain, 0, 1) || !in(timber, 0, 99)) {
                 return -1;
             }
@@ -622,7 +678,8 @@ public final class ModelRuns {
             return record(before, old);
         }
 
-        int tell(int captain, int card) {
+        @Override
+        public int tell(int captain, int card) {
             if (!in(captain, 0, 1) || !in(card, 0, 5)) {
                 return -1;
             }
@@ -686,7 +743,8 @@ public final class ModelRuns {
             return at;
         }
 
-        int sail(int ship, int path) {
+        @Override
+        public int sail(int ship, int path) {
             String steps = String.valueOf(path);
             if (!isShip(ship) || !steps.matches("[123]{1,6}")) {
                 return -1;
@@ -707,7 +765,8 @@ public final class ModelRuns {
             return record(before, at[0] * 9 + at[1]);
         }
 
-        int fire(int ship, int side, int target) {
+        @Override
+        public int fire(int ship, int side, int target) {
             int hits = hits(ship, side, target);
             if (hits == -1) {
                 return -1;
@@ -745,7 +804,8 @@ public final class ModelRuns {
                 && b.crew * 2 >= o.crew;
         }
 
-        int grapple(int ship, int other) {
+        @Override
+        public int grapple(int ship, int other) {
             if (!isShip(ship) || !isShip(other) || ship == other) {
                 return -1;
             }
@@ -758,7 +818,8 @@ public final class ModelRuns {
             return record(before, now.ships.get(ship).crew + now.ships.get(other).crew);
         }
 
-        int cut(int ship) {
+        @Override
+        public int cut(int ship) {
             if (!isShip(ship)) {
                 return -1;
             }
@@ -773,7 +834,8 @@ public final class ModelRuns {
             return record(before, other);
         }
 
-        int repair(int ship, int what) {
+        @Override
+        public int repair(int ship, int what) {
             if (!isShip(ship) || !in(what, 0, 2)) {
                 return -1;
             }
@@ -801,7 +863,8 @@ public final class ModelRuns {
             return record(before, by);
         }
 
-        int end() {
+        @Override
+        public int end() {
             if (!now.moving) {
                 return -2;
             }
@@ -842,7 +905,8 @@ public final class ModelRuns {
             }
         }
 
-        int take(int slot) {
+        @Override
+        public int take(int slot) {
             if (!in(slot, 0, 1)) {
                 return -1;
             }
@@ -851,7 +915,8 @@ public final class ModelRuns {
             return record(before, now.turn);
         }
 
-        int restore(int slot) {
+        @Override
+        public int restore(int slot) {
             if (!in(slot, 0, 1)) {
                 return -1;
             }
@@ -863,7 +928,8 @@ public final class ModelRuns {
             return record(before, now.turn);
         }
 
-        int undo() {
+        @Override
+        public int undo() {
             if (history.isEmpty()) {
                 return -2;
             }
@@ -875,7 +941,8 @@ public final class ModelRuns {
 
         // ---- text
 
-        int append(int character) {
+        @Override
+        public int append(int character) {
             if (!in(character, 1, 255)) {
                 return -1;
             }
@@ -886,7 +953,8 @@ public final class ModelRuns {
             return text.length();
         }
 
-        int clearText() {
+        @Override
+        public int clearText() {
             int length = text.length();
             text = "";
             return length;
@@ -906,7 +974,8 @@ public final class ModelRuns {
             return text.split(";").length;
         }
 
-        int carryOut() {
+        @Override
+        public int carryOut() {
             if (fault() >= 0) {
                 return -1000 - fault();
             }
@@ -943,7 +1012,8 @@ public final class ModelRuns {
 
         // ---- looking
 
-        int count(int what) {
+        @Override
+        public int count(int what) {
             return switch (what) {
                 case 0 -> now.turn;
                 case 1 -> now.moving ? 1 : 0;
@@ -961,7 +1031,8 @@ public final class ModelRuns {
             };
         }
 
-        int captain(int captain, int what) {
+        @Override
+        public int captain(int captain, int what) {
             if (!in(captain, 0, 1) || !in(what, 0, 4)) {
                 return -1;
             }
@@ -987,7 +1058,8 @@ public final class ModelRuns {
             }
         }
 
-        int ship(int ship, int what) {
+        @Override
+        public int ship(int ship, int what) {
             if (!isShip(ship) || !in(what, 0, 10)) {
                 return -1;
             }
@@ -999,7 +1071,8 @@ public final class ModelRuns {
             return all[what];
         }
 
-        int on(int hex) {
+        @Override
+        public int on(int hex) {
             if (!in(hex, 0, 80)) {
                 return -1;
             }
@@ -1007,7 +1080,8 @@ public final class ModelRuns {
             return ship >= 0 ? ship : now.islands.contains(hex) ? 8 : -9;
         }
 
-        int hits(int ship, int side, int target) {
+        @Override
+        public int hits(int ship, int side, int target) {
             if (!isShip(ship) || !isShip(target) || ship == target || !in(side, 0, 1)) {
                 return -1;
             }
@@ -1040,7 +1114,8 @@ public final class ModelRuns {
             return true;
         }
 
-        int targets(int ship, int side) {
+        @Override
+        public int targets(int ship, int side) {
             if (!isShip(ship) || !in(side, 0, 1)) {
                 return -1;
             }
@@ -1051,7 +1126,8 @@ public final class ModelRuns {
             return set;
         }
 
-        int threats(int ship) {
+        @Override
+        public int threats(int ship) {
             if (!isShip(ship)) {
                 return -1;
             }
@@ -1079,7 +1155,8 @@ public final class ModelRuns {
             return ways;
         }
 
-        int way(int ship, int hex, int what) {
+        @Override
+        public int way(int ship, int hex, int what) {
             if (!isShip(ship) || !in(hex, 0, 80) || !in(what, 0, 2)) {
                 return -1;
             }
@@ -1091,7 +1168,8 @@ public final class ModelRuns {
             return what == 0 ? path : what == 1 ? String.valueOf(path).length() : go(b, path)[2];
         }
 
-        int reach(int ship) {
+        @Override
+        public int reach(int ship) {
             if (!isShip(ship)) {
                 return -1;
             }
@@ -1099,14 +1177,16 @@ public final class ModelRuns {
             return (int) Arrays.stream(ways(b, steps(b, now.wind, now.force))).filter(path -> path > 0).count();
         }
 
-        int windBy(int one, int other) {
+        @Override
+        public int windBy(int one, int other) {
             if (!in(one, 0, 5) || !in(other, 0, 5)) {
                 return -1;
             }
             return (now.wind + one + other) % 6 * 10 + 1 + (one + other) % 3;
         }
 
-        int bestCard(int ship, int hex, int what) {
+        @Override
+        public int bestCard(int ship, int hex, int what) {
             if (!isShip(ship) || !in(hex, 0, 80) || !in(what, 0, 1)) {
                 return -1;
             }
@@ -1127,7 +1207,8 @@ public final class ModelRuns {
             return best == -9 || what == 0 ? best : most;
         }
 
-        int strength(int captain) {
+        @Override
+        public int strength(int captain) {
             if (!in(captain, 0, 1)) {
                 return -1;
             }

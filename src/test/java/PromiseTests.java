@@ -68,25 +68,25 @@ public final class PromiseTests {
     // ---- helpers
 
     /** Both captains tell their cards, so that the part of the moves begins. */
-    private static void tellBoth(WindCardShips x, int one, int other) {
+    private static void tellBoth(CountedShips x, int one, int other) {
         due("tell(0, " + one + ") of both", x.tell(0, one), 1);
         due("tell(1, " + other + ") of both", x.tell(1, other), 3);
     }
 
-    private static void write(WindCardShips x, String text) {
+    private static void write(CountedShips x, String text) {
         x.clearText();
         for (int i = 0; i < text.length(); i++) {
             due("append in " + text, x.append(text.charAt(i)), i + 1);
         }
     }
 
-    private static int obey(WindCardShips x, String text) {
+    private static int obey(CountedShips x, String text) {
         write(x, text);
         return x.carryOut();
     }
 
     /** Everything that can be looked at. */
-    private static int[] view(WindCardShips x) {
+    private static int[] view(CountedShips x) {
         int[] all = new int[12 + 10 + 8 * 11 + 81];
         int n = 0;
         for (int what = 0; what < 12; what++) {
@@ -113,7 +113,7 @@ public final class PromiseTests {
     }
 
     /** The view without the number of states in the history and the length of the text. */
-    private static int[] viewOfState(WindCardShips x) {
+    private static int[] viewOfState(CountedShips x) {
         int[] all = view(x);
         all[10] = 0;
         all[11] = 0;
@@ -124,7 +124,7 @@ public final class PromiseTests {
 
     private static void newObject() {
         about = "promise 1";
-        WindCardShips x = new WindCardShips();
+        CountedShips x = new CountedShips();
         int[] counts = {0, 0, 0, 2, 0, 0, 0, 0, 0, 0, 0, 0};
         for (int what = 0; what < counts.length; what++) {
             due("count(" + what + ")", x.count(what), counts[what]);
@@ -148,7 +148,7 @@ public final class PromiseTests {
 
     private static void setIsland() {
         about = "promise 2";
-        WindCardShips x = new WindCardShips();
+        CountedShips x = new CountedShips();
         due("hex -1", x.setIsland(-1, 1), BAD);
         due("hex 81", x.setIsland(81, 1), BAD);
         due("is -1", x.setIsland(0, -1), BAD);
@@ -177,7 +177,7 @@ public final class PromiseTests {
 
     private static void addShip() {
         about = "promise 3";
-        WindCardShips x = new WindCardShips();
+        CountedShips x = new CountedShips();
         int[] good = {1, 40, 5, 8, 40, 9};
         int[] least = {0, 0, 0, 1, 1, 0};
         int[] most = {1, 80, 5, 8, 40, 9};
@@ -215,13 +215,13 @@ public final class PromiseTests {
         due("count(10)", x.count(10), 6);
     }
 
-    private static int add(WindCardShips x, int[] all) {
+    private static int add(CountedShips x, int[] all) {
         return x.addShip(all[0], all[1], all[2], all[3], all[4], all[5]);
     }
 
     private static void setTimber() {
         about = "promise 4";
-        WindCardShips x = new WindCardShips();
+        CountedShips x = new CountedShips();
         due("captain -1", x.setTimber(-1, 5), BAD);
         due("captain 2", x.setTimber(2, 5), BAD);
         due("timber -1", x.setTimber(0, -1), BAD);
@@ -242,7 +242,7 @@ public final class PromiseTests {
 
     private static void tell() {
         about = "promise 5";
-        WindCardShips x = new WindCardShips();
+        CountedShips x = new CountedShips();
         due("captain -1", x.tell(-1, 0), BAD);
         due("captain 2", x.tell(2, 0), BAD);
         due("card -1", x.tell(0, -1), BAD);
@@ -282,8 +282,8 @@ public final class PromiseTests {
         due("the first card again", x.tell(0, 5), 1);
     }
 
-    private static WindCardShips fastShip() {
-        WindCardShips x = new WindCardShips();
+    private static CountedShips fastShip() {
+        CountedShips x = new CountedShips();
         x.addShip(0, 40, 1, 8, 8, 9);
         x.addShip(1, 0, 3, 8, 40, 9);
         return x;
@@ -291,7 +291,7 @@ public final class PromiseTests {
 
     private static void sail() {
         about = "promise 6";
-        WindCardShips x = fastShip();
+        CountedShips x = fastShip();
         due("in the part of the cards", x.sail(0, 1), STATE);
         due("no path there", x.sail(0, 0), BAD);
         tellBoth(x, 1, 1);
@@ -338,7 +338,7 @@ public final class PromiseTests {
 
     /** The heading after a path, with any wind that lets the ship sail. */
     private static int turnOf(int heading, int path) {
-        WindCardShips x = new WindCardShips();
+        CountedShips x = new CountedShips();
         x.addShip(0, 40, heading, 8, 40, 0);
         x.tell(0, 1);
         x.tell(1, heading == 5 ? 4 : 1);
@@ -348,7 +348,7 @@ public final class PromiseTests {
 
     private static void sailAround() {
         about = "promise 6, around";
-        WindCardShips x = fastShip();
+        CountedShips x = fastShip();
         tellBoth(x, 1, 1);
         due("back to the own hex", x.sail(0, 12221), 40);
         due("heading", x.ship(0, 2), 4);
@@ -368,7 +368,7 @@ public final class PromiseTests {
             due("to direction " + direction, x.sail(0, path[direction]), next[direction]);
             due("heading", x.ship(0, 2), direction);
             x.undo();
-            WindCardShips y = new WindCardShips();
+            CountedShips y = new CountedShips();
             y.addShip(0, far[direction], direction, 8, 40, 0);
             y.tell(0, direction == 0 ? 5 : 1);
             y.tell(1, direction == 0 ? 0 : direction == 1 ? 4 : direction == 5 ? 4 : 1);
@@ -382,7 +382,7 @@ public final class PromiseTests {
         int[] first = {6, 8, 4, 0, 4, 8};
         for (int heading = 0; heading < 6; heading++) {
             for (int sum = 0; sum <= 10; sum++) {
-                WindCardShips x = new WindCardShips();
+                CountedShips x = new CountedShips();
                 x.addShip(0, 0, heading, 8, 40, 0);
                 x.addShip(0, 20, heading, 5, 3, 0);
                 x.addShip(0, 30, heading, 3, 5, 0);
@@ -393,7 +393,7 @@ public final class PromiseTests {
                 due("small crew, " + heading + " by " + sum, x.ship(1, 8), factor * 3 / 32);
                 due("few sails, " + heading + " by " + sum, x.ship(2, 8), factor * 3 / 32);
                 for (int sails = 1; sails <= 8; sails++) {
-                    WindCardShips y = new WindCardShips();
+                    CountedShips y = new CountedShips();
                     y.addShip(0, 40, heading, sails, 9, 0);
                     y.tell(0, sum / 2);
                     y.tell(1, sum - sum / 2);
@@ -405,7 +405,7 @@ public final class PromiseTests {
 
     private static void fire() {
         about = "promise 7";
-        WindCardShips x = new WindCardShips();
+        CountedShips x = new CountedShips();
         x.addShip(0, 40, 0, 8, 40, 9);
         x.addShip(1, 58, 2, 8, 30, 9);
         x.addShip(0, 48, 2, 8, 30, 9);
@@ -440,7 +440,7 @@ public final class PromiseTests {
         for (int heading = 0; heading < 6; heading++) {
             for (int direction = 0; direction < 6; direction++) {
                 for (int distance = 1; distance <= 4; distance++) {
-                    WindCardShips x = new WindCardShips();
+                    CountedShips x = new CountedShips();
                     x.addShip(0, 40, heading, 8, 7, 5);
                     int hex = 40 + distance * (steps[direction][0] + 9 * steps[direction][1]);
                     x.addShip(1, hex, 0, 8, 40, 0);
@@ -461,7 +461,7 @@ public final class PromiseTests {
 
     private static void fireReloading() {
         about = "promise 7, reloading";
-        WindCardShips x = new WindCardShips();
+        CountedShips x = new CountedShips();
         x.addShip(0, 40, 0, 8, 40, 0);
         x.addShip(1, 49, 0, 8, 30, 9);
         x.addShip(1, 31, 0, 8, 30, 9);
@@ -493,7 +493,7 @@ public final class PromiseTests {
 
     private static void fireSinks() {
         about = "promise 7, sinking";
-        WindCardShips x = new WindCardShips();
+        CountedShips x = new CountedShips();
         x.addShip(0, 40, 0, 8, 40, 9);
         x.addShip(1, 49, 3, 3, 6, 3);
         x.addShip(0, 50, 0, 1, 10, 9);
@@ -523,7 +523,7 @@ public final class PromiseTests {
         due("the island stops it", x.hits(0, 1, 3), NONE);
         x.setIsland(49, 0);
         due("a new ship there", x.addShip(0, 49, 0, 1, 1, 0), 4);
-        x = new WindCardShips();
+        x = new CountedShips();
         x.addShip(0, 40, 0, 8, 40, 7);
         x.addShip(1, 49, 3, 7, 30, 9);
         tellBoth(x, 0, 0);
@@ -536,7 +536,7 @@ public final class PromiseTests {
     }
 
     private static void hullOfOne() {
-        WindCardShips x = new WindCardShips();
+        CountedShips x = new CountedShips();
         x.addShip(0, 40, 0, 8, 8, 6);
         x.addShip(1, 49, 0, 8, 8, 0);
         x.addShip(0, 48, 4, 8, 5, 1);
@@ -549,7 +549,7 @@ public final class PromiseTests {
 
     private static void grapple() {
         about = "promise 8";
-        WindCardShips x = new WindCardShips();
+        CountedShips x = new CountedShips();
         x.addShip(0, 40, 0, 8, 10, 9);
         x.addShip(1, 41, 0, 8, 20, 9);
         x.addShip(1, 39, 0, 8, 21, 9);
@@ -577,13 +577,13 @@ public final class PromiseTests {
         due("actions", x.count(10), 6);
         for (int direction = 0; direction < 8; direction++) {
             int[] hexes = {41, 49, 48, 39, 31, 32, 50, 30};
-            WindCardShips y = new WindCardShips();
+            CountedShips y = new CountedShips();
             y.addShip(1, 40, 0, 8, 10, 9);
             y.addShip(0, hexes[direction], 0, 8, 10, 9);
             tellBoth(y, 1, 1);
             due("to direction " + direction, y.grapple(0, 1), direction < 6 ? 20 : STATE);
         }
-        WindCardShips z = new WindCardShips();
+        CountedShips z = new CountedShips();
         z.addShip(0, 8, 0, 8, 10, 9);
         z.addShip(1, 9, 0, 8, 10, 9);
         z.addShip(1, 17, 0, 8, 20, 9);
@@ -595,7 +595,7 @@ public final class PromiseTests {
 
     private static void cut() {
         about = "promise 9";
-        WindCardShips x = new WindCardShips();
+        CountedShips x = new CountedShips();
         x.addShip(0, 40, 0, 8, 10, 9);
         x.addShip(1, 41, 0, 8, 12, 9);
         due("no ship", x.cut(2), BAD);
@@ -613,7 +613,7 @@ public final class PromiseTests {
         x.end();
         due("fought", x.ship(0, 5) * 100 + x.ship(1, 5), 10 * 100 + 12 - 300 - 3);
         due("in the next part of the cards", x.cut(1), STATE);
-        WindCardShips y = new WindCardShips();
+        CountedShips y = new CountedShips();
         y.addShip(0, 40, 0, 8, 10, 9);
         y.addShip(1, 41, 0, 8, 10, 9);
         tellBoth(y, 1, 1);
@@ -622,8 +622,8 @@ public final class PromiseTests {
         due("actions", y.count(10), 6);
     }
 
-    private static WindCardShips damaged() {
-        WindCardShips x = new WindCardShips();
+    private static CountedShips damaged() {
+        CountedShips x = new CountedShips();
         x.addShip(0, 40, 0, 8, 40, 6);
         x.addShip(1, 49, 0, 8, 30, 9);
         x.addShip(1, 32, 4, 8, 30, 9);
@@ -634,7 +634,7 @@ public final class PromiseTests {
 
     private static void repair() {
         about = "promise 10";
-        WindCardShips x = new WindCardShips();
+        CountedShips x = new CountedShips();
         x.addShip(0, 40, 0, 8, 40, 9);
         due("no ship", x.repair(1, 0), BAD);
         due("ship -1", x.repair(-1, 0), BAD);
@@ -692,7 +692,7 @@ public final class PromiseTests {
         repairLimits();
     }
 
-    private static void repairByTimber(WindCardShips x) {
+    private static void repairByTimber(CountedShips x) {
         int[] timbers = {0, 1, 2, 3, 5, 6, 99};
         int[][] by = {{STATE, STATE, STATE}, {1, STATE, STATE}, {2, 1, STATE}, {3, 1, 1}, {5, 1, 1},
             {6, 1, 1}, {6, 1, 1}};
@@ -710,7 +710,7 @@ public final class PromiseTests {
     }
 
     private static void repairLimits() {
-        WindCardShips x = new WindCardShips();
+        CountedShips x = new CountedShips();
         x.addShip(0, 40, 0, 8, 8, 1);
         x.addShip(1, 49, 0, 8, 40, 9);
         x.addShip(0, 60, 0, 7, 3, 8);
@@ -729,7 +729,7 @@ public final class PromiseTests {
         x.end();
         tellBoth(x, 2, 2);
         due("sails of 8", x.repair(2, 1), STATE);
-        WindCardShips y = new WindCardShips();
+        CountedShips y = new CountedShips();
         y.addShip(0, 40, 0, 8, 8, 1);
         y.addShip(1, 49, 0, 8, 4, 9);
         y.addShip(0, 60, 0, 8, 8, 1);
@@ -740,7 +740,7 @@ public final class PromiseTests {
 
     private static void end() {
         about = "promise 11";
-        WindCardShips x = new WindCardShips();
+        CountedShips x = new CountedShips();
         due("in the part of the cards", x.end(), STATE);
         x.tell(0, 0);
         due("one has told", x.end(), STATE);
@@ -757,8 +757,8 @@ public final class PromiseTests {
     }
 
     /** The crews, captains and the rest after one fight of crews so great. */
-    private static WindCardShips fought(int crew, int other) {
-        WindCardShips x = new WindCardShips();
+    private static CountedShips fought(int crew, int other) {
+        CountedShips x = new CountedShips();
         x.addShip(0, 40, 0, 8, crew, 9);
         x.addShip(1, 41, 0, 8, other, 9);
         tellBoth(x, 1, 1);
@@ -777,7 +777,7 @@ public final class PromiseTests {
             {40, 11, 37, 1, 0, 1, 0}, {5, 2, 2, 2, 0, 0, 1}, {5, 3, 4, 1, 0, 1, 0},
             {11, 40, 1, 37, 0, 1, 0}, {1, 2, 0, 1, 1, 1, 1}, {3, 5, 1, 4, 0, 1, 0}};
         for (int[] row : rows) {
-            WindCardShips x = fought(row[0], row[1]);
+            CountedShips x = fought(row[0], row[1]);
             String what = row[0] + " against " + row[1] + ": ";
             due(what + "crew", x.ship(0, 5), row[2]);
             due(what + "other crew", x.ship(1, 5), row[3]);
@@ -788,7 +788,7 @@ public final class PromiseTests {
             due(what + "grappled", x.ship(0, 7), over ? NONE : 1);
             due(what + "other grappled", x.ship(1, 7), over ? NONE : 0);
         }
-        WindCardShips x = fought(20, 20);
+        CountedShips x = fought(20, 20);
         tellBoth(x, 0, 0);
         x.end();
         due("they fight again", x.ship(0, 5) * 100 + x.ship(1, 5), 1111);
@@ -801,7 +801,7 @@ public final class PromiseTests {
     }
 
     private static void twoFights() {
-        WindCardShips x = new WindCardShips();
+        CountedShips x = new CountedShips();
         x.addShip(0, 40, 0, 8, 40, 9);
         x.addShip(0, 60, 0, 8, 2, 9);
         x.addShip(1, 61, 0, 8, 30, 9);
@@ -824,7 +824,7 @@ public final class PromiseTests {
 
     /** Two crews of 0 that are grappled: nobody is captured, and they are free then. */
     private static void noCrews() {
-        WindCardShips x = new WindCardShips();
+        CountedShips x = new CountedShips();
         x.addShip(0, 40, 0, 8, 2, 1);
         x.addShip(1, 41, 0, 8, 2, 1);
         x.addShip(0, 32, 5, 8, 40, 3);
@@ -839,7 +839,7 @@ public final class PromiseTests {
         due("it is captured", x.ship(0, 0), 1);
         due("crews", x.ship(0, 5) * 10 + x.ship(1, 5), 11);
         due("captures", x.count(8), 1);
-        WindCardShips y = new WindCardShips();
+        CountedShips y = new CountedShips();
         y.addShip(0, 40, 0, 8, 2, 1);
         y.addShip(1, 41, 0, 8, 2, 1);
         y.addShip(0, 32, 5, 8, 40, 3);
@@ -857,7 +857,7 @@ public final class PromiseTests {
 
     private static void take() {
         about = "promise 12";
-        WindCardShips x = new WindCardShips();
+        CountedShips x = new CountedShips();
         due("slot -1", x.take(-1), BAD);
         due("slot 2", x.take(2), BAD);
         for (int extreme : EXTREMES) {
@@ -883,41 +883,26 @@ public final class PromiseTests {
 
     private static void restore() {
         about = "promise 13";
-        WindCardShips x = new WindCardShips();
+        CountedShips x = new CountedShips();
         due("slot -1", x.restore(-1), BAD);
         due("slot 2", x.restore(2), BAD);
         due("an empty slot", x.restore(0), STATE);
         due("the other empty slot", x.restore(1), STATE);
-        x = damaged();
-        x.tell(0, 1);
-        x.setIsland(7, 1);
-        x.setTimber(1, 33);
-        x.sail(2, 1);
-        x.repair(1, 1);
-        x.take(0);
+        x = atFirstSnapshot();
         due("the other slot is empty", x.restore(1), STATE);
         int[] then = viewOfState(x);
-        x.end();
-        x.tell(1, 5);
-        due("one has told", x.take(1), 1);
-        int[] later = viewOfState(x);
-        x.setIsland(8, 1);
-        x.setIsland(7, 0);
-        x.tell(0, 3);
-        x.grapple(1, 0);
-        x.addShip(1, 80, 3, 2, 2, 2);
-        x.append('e');
-        int history = x.count(10);
-        due("the history is full", history, 6);
+        int[] later = viewOfState(atSecondSnapshot());
+        then[9] = 2;
+        later[9] = 2;
+        x = beyondBothSnapshots();
+        due("the history is full", x.count(10), 6);
         due("restore 0", x.restore(0), 0);
         due("the history stays", x.count(10), 6);
         due("the text stays", x.count(11), 1);
-        then[9] = 2;
         dueSame("restore 0", then, viewOfState(x));
         due("the ship is gone", x.ship(3, 0), BAD);
         due("it stays in the slot", x.restore(0), 0);
         due("restore 1", x.restore(1), 1);
-        later[9] = 2;
         dueSame("restore 1", later, viewOfState(x));
         due("the card told is there", x.captain(1, 1), 5);
         due("it goes on from there", x.tell(0, 1), 3);
@@ -926,9 +911,39 @@ public final class PromiseTests {
         due("undo it", x.undo(), 5);
     }
 
+    private static CountedShips atFirstSnapshot() {
+        CountedShips x = damaged();
+        x.tell(0, 1);
+        x.setIsland(7, 1);
+        x.setTimber(1, 33);
+        x.sail(2, 1);
+        x.repair(1, 1);
+        x.take(0);
+        return x;
+    }
+
+    private static CountedShips atSecondSnapshot() {
+        CountedShips x = atFirstSnapshot();
+        x.end();
+        x.tell(1, 5);
+        due("one has told", x.take(1), 1);
+        return x;
+    }
+
+    private static CountedShips beyondBothSnapshots() {
+        CountedShips x = atSecondSnapshot();
+        x.setIsland(8, 1);
+        x.setIsland(7, 0);
+        x.tell(0, 3);
+        x.grapple(1, 0);
+        x.addShip(1, 80, 3, 2, 2, 2);
+        x.append('e');
+        return x;
+    }
+
     private static void undo() {
         about = "promise 14";
-        WindCardShips x = new WindCardShips();
+        CountedShips x = new CountedShips();
         due("an empty history", x.undo(), STATE);
         for (int hex = 0; hex < 8; hex++) {
             x.setIsland(hex, 1);
@@ -947,20 +962,28 @@ public final class PromiseTests {
 
     /** Every action of a long run is taken back, and all is as it was before it. */
     private static void undoEach() {
-        WindCardShips x = new WindCardShips();
         for (int i = 0; i < 15; i++) {
-            int[] before = viewOfState(x);
+            int[] before = viewOfState(afterActs(i));
+            int[] after = viewOfState(afterActs(i + 1));
+            CountedShips x = afterActs(i);
             due("action " + i + " succeeds", act(x, i) >= 0 ? 1 : 0, 1);
-            int[] after = viewOfState(x);
             x.undo();
             dueSame("action " + i + " and undo", before, viewOfState(x));
             act(x, i);
             dueSame("action " + i + " again", after, viewOfState(x));
         }
-        due("nothing is recorded by errors", x.count(10), 6);
+        due("nothing is recorded by errors", afterActs(15).count(10), 6);
     }
 
-    private static int act(WindCardShips x, int number) {
+    private static CountedShips afterActs(int acts) {
+        CountedShips x = new CountedShips();
+        for (int i = 0; i < acts; i++) {
+            act(x, i);
+        }
+        return x;
+    }
+
+    private static int act(CountedShips x, int number) {
         switch (number) {
             case 0: return x.addShip(0, 40, 0, 8, 40, 6);
             case 1: return x.addShip(1, 49, 0, 8, 30, 9);
@@ -981,7 +1004,7 @@ public final class PromiseTests {
     }
 
     private static void undoCapture() {
-        WindCardShips x = new WindCardShips();
+        CountedShips x = new CountedShips();
         x.addShip(0, 40, 0, 8, 40, 1);
         x.addShip(1, 31, 0, 8, 1, 1);
         tellBoth(x, 0, 0);
@@ -1002,7 +1025,7 @@ public final class PromiseTests {
     }
 
     private static void undoSlots() {
-        WindCardShips x = new WindCardShips();
+        CountedShips x = new CountedShips();
         x.setIsland(1, 1);
         x.take(0);
         x.setIsland(2, 1);
@@ -1024,7 +1047,7 @@ public final class PromiseTests {
 
     private static void append() {
         about = "promise 15";
-        WindCardShips x = new WindCardShips();
+        CountedShips x = new CountedShips();
         due("character 0", x.append(0), BAD);
         due("character -1", x.append(-1), BAD);
         due("character 256", x.append(256), BAD);
@@ -1044,7 +1067,7 @@ public final class PromiseTests {
 
     private static void clearText() {
         about = "promise 16";
-        WindCardShips x = new WindCardShips();
+        CountedShips x = new CountedShips();
         due("an empty text", x.clearText(), 0);
         write(x, "t0,");
         due("three", x.clearText(), 3);
@@ -1056,7 +1079,7 @@ public final class PromiseTests {
 
     private static void carryOut() {
         about = "promise 17";
-        WindCardShips x = new WindCardShips();
+        CountedShips x = new CountedShips();
         x.addShip(0, 40, 0, 8, 40, 6);
         x.addShip(1, 49, 0, 8, 30, 9);
         x.addShip(1, 41, 0, 8, 30, 9);
@@ -1092,13 +1115,13 @@ public final class PromiseTests {
             int card = turn % 6;
             whole.append("t0,").append(card).append(";t1,").append(card).append(";e;");
         }
-        WindCardShips y = new WindCardShips();
+        CountedShips y = new CountedShips();
         due("100 characters", obey(y, whole.append("t0,3").toString()), 25);
         due("eight turns and a card", y.count(0) * 10 + y.count(4), 81);
     }
 
     private static void carryOutMore() {
-        WindCardShips x = new WindCardShips();
+        CountedShips x = new CountedShips();
         x.addShip(0, 40, 0, 8, 40, 0);
         x.addShip(1, 49, 0, 8, 30, 9);
         due("an answer of 0 is no error", obey(x, "t0,1;t1,4;f0,1,1;e"), 4);
@@ -1125,14 +1148,14 @@ public final class PromiseTests {
             -1, 2, 2, 2, 1, 1, 6, -1, -1, 4, 7,
             0, 1};
         for (int i = 0; i < texts.length; i++) {
-            WindCardShips x = new WindCardShips();
+            CountedShips x = new CountedShips();
             int got = obey(x, texts[i]);
             boolean fault = due[i] >= 0;
             due("orders " + texts[i], got <= -1000 ? got : 0, fault ? -1000 - due[i] : 0);
             due("the text of " + texts[i], x.count(11), fault ? texts[i].length() : 0);
             due("the history of " + texts[i], x.count(10), fault ? 0 : 1);
         }
-        WindCardShips x = new WindCardShips();
+        CountedShips x = new CountedShips();
         StringBuilder full = new StringBuilder();
         for (int i = 0; i < 50; i++) {
             full.append("e;");
@@ -1149,7 +1172,7 @@ public final class PromiseTests {
 
     private static void count() {
         about = "promise 18";
-        WindCardShips x = damaged();
+        CountedShips x = damaged();
         x.setIsland(3, 1);
         x.setIsland(4, 1);
         x.take(1);
@@ -1177,7 +1200,7 @@ public final class PromiseTests {
 
     private static void captain() {
         about = "promise 19";
-        WindCardShips x = damaged();
+        CountedShips x = damaged();
         due("captain -1", x.captain(-1, 0), BAD);
         due("captain 2", x.captain(2, 0), BAD);
         due("what -1", x.captain(0, -1), BAD);
@@ -1204,7 +1227,7 @@ public final class PromiseTests {
 
     private static void ship() {
         about = "promise 20";
-        WindCardShips x = damaged();
+        CountedShips x = damaged();
         due("ship -1", x.ship(-1, 0), BAD);
         due("ship 3", x.ship(3, 0), BAD);
         due("what -1", x.ship(0, -1), BAD);
@@ -1232,7 +1255,7 @@ public final class PromiseTests {
 
     private static void on() {
         about = "promise 21";
-        WindCardShips x = damaged();
+        CountedShips x = damaged();
         x.setIsland(80, 1);
         due("hex -1", x.on(-1), BAD);
         due("hex 81", x.on(81), BAD);
@@ -1245,8 +1268,8 @@ public final class PromiseTests {
         due("nothing", x.on(0), NONE);
     }
 
-    private static WindCardShips lines() {
-        WindCardShips x = new WindCardShips();
+    private static CountedShips lines() {
+        CountedShips x = new CountedShips();
         x.addShip(0, 40, 0, 8, 40, 9);
         x.addShip(1, 67, 0, 8, 40, 9);
         x.addShip(1, 56, 5, 8, 4, 1);
@@ -1258,7 +1281,7 @@ public final class PromiseTests {
 
     private static void targets() {
         about = "promise 22";
-        WindCardShips x = lines();
+        CountedShips x = lines();
         due("ship -1", x.targets(-1, 0), BAD);
         due("ship 6", x.targets(6, 0), BAD);
         due("side -1", x.targets(0, -1), BAD);
@@ -1283,7 +1306,7 @@ public final class PromiseTests {
 
     private static void hits() {
         about = "promise 23";
-        WindCardShips x = lines();
+        CountedShips x = lines();
         int[][] bad = {{6, 1, 1}, {-1, 1, 1}, {0, 1, 6}, {0, 1, -1}, {0, 1, 0}, {0, 2, 1}, {0, -1, 1},
             {Integer.MAX_VALUE, 1, 1}, {0, Integer.MIN_VALUE, 1}, {0, 1, Integer.MIN_VALUE}};
         for (int[] row : bad) {
@@ -1309,7 +1332,7 @@ public final class PromiseTests {
 
     private static void way() {
         about = "promise 24";
-        WindCardShips x = fastShip();
+        CountedShips x = fastShip();
         due("ship -1", x.way(-1, 0, 0), BAD);
         due("ship 2", x.way(2, 0, 0), BAD);
         due("hex -1", x.way(0, -1, 0), BAD);
@@ -1346,8 +1369,8 @@ public final class PromiseTests {
         due("a grappled ship", grappled().way(0, 49, 0), NONE);
     }
 
-    private static WindCardShips sunk() {
-        WindCardShips x = new WindCardShips();
+    private static CountedShips sunk() {
+        CountedShips x = new CountedShips();
         x.addShip(0, 40, 0, 8, 40, 9);
         x.addShip(1, 49, 0, 8, 40, 9);
         tellBoth(x, 0, 0);
@@ -1355,8 +1378,8 @@ public final class PromiseTests {
         return x;
     }
 
-    private static WindCardShips grappled() {
-        WindCardShips x = new WindCardShips();
+    private static CountedShips grappled() {
+        CountedShips x = new CountedShips();
         x.addShip(0, 40, 1, 8, 40, 9);
         x.addShip(1, 41, 0, 8, 40, 9);
         tellBoth(x, 1, 1);
@@ -1366,7 +1389,7 @@ public final class PromiseTests {
 
     private static void reach() {
         about = "promise 25";
-        WindCardShips x = new WindCardShips();
+        CountedShips x = new CountedShips();
         x.addShip(0, 40, 0, 1, 8, 9);
         x.addShip(0, 0, 0, 8, 8, 9);
         x.addShip(0, 8, 0, 8, 8, 9);
@@ -1384,7 +1407,7 @@ public final class PromiseTests {
         due("a ship on the way", x.way(3, 0, 0), NONE);
         due("to 9, and to 10 by a turn", x.reach(3), 2);
         x.undo();
-        WindCardShips z = new WindCardShips();
+        CountedShips z = new CountedShips();
         z.addShip(0, 9, 4, 8, 8, 9);
         due("to the first hex, and to 1 by a turn", z.reach(0), 2);
         x.setIsland(1, 1);
@@ -1393,7 +1416,7 @@ public final class PromiseTests {
         due("locked in", x.reach(1), 0);
         due("a sunk ship", sunk().reach(1), 0);
         due("a grappled ship", grappled().reach(0), 0);
-        WindCardShips y = fastShip();
+        CountedShips y = fastShip();
         tellBoth(y, 1, 1);
         int ways = 0;
         for (int hex = 0; hex < 81; hex++) {
@@ -1404,7 +1427,7 @@ public final class PromiseTests {
 
     private static void windBy() {
         about = "promise 26";
-        WindCardShips x = new WindCardShips();
+        CountedShips x = new CountedShips();
         due("one -1", x.windBy(-1, 0), BAD);
         due("one 6", x.windBy(6, 0), BAD);
         due("other -1", x.windBy(0, -1), BAD);
@@ -1428,7 +1451,7 @@ public final class PromiseTests {
 
     private static void bestCard() {
         about = "promise 27";
-        WindCardShips x = new WindCardShips();
+        CountedShips x = new CountedShips();
         x.addShip(0, 40, 0, 8, 8, 9);
         x.addShip(1, 80, 3, 8, 8, 9);
         due("ship -1", x.bestCard(-1, 0, 0), BAD);
@@ -1468,7 +1491,7 @@ public final class PromiseTests {
     }
 
     private static void bestCardMore() {
-        WindCardShips x = new WindCardShips();
+        CountedShips x = new CountedShips();
         x.addShip(1, 36, 0, 8, 8, 9);
         // Six steps ahead only by a sum of 5: captain 1 has the cards 1 to 5, captain 0 all but one.
         due("six steps, card", x.bestCard(0, 42, 0), 0);
@@ -1489,7 +1512,7 @@ public final class PromiseTests {
 
     private static void threats() {
         about = "promise 28";
-        WindCardShips x = lines();
+        CountedShips x = lines();
         due("ship -1", x.threats(-1), BAD);
         due("ship 6", x.threats(6), BAD);
         for (int extreme : EXTREMES) {
@@ -1505,15 +1528,15 @@ public final class PromiseTests {
         }
         due("by ship 0 on its right", x.threats(1), 1);
         due("by ship 0 on its left", x.threats(5) & 1, 1);
-        WindCardShips y = fireAtEachOther();
+        CountedShips y = fireAtEachOther();
         due("both", y.threats(0) * 10 + y.threats(1), 21);
         tellBoth(y, 0, 0);
         y.fire(0, 1, 1);
         due("having fired plays no part", y.threats(1), 1);
     }
 
-    private static WindCardShips fireAtEachOther() {
-        WindCardShips x = new WindCardShips();
+    private static CountedShips fireAtEachOther() {
+        CountedShips x = new CountedShips();
         x.addShip(0, 40, 0, 8, 40, 1);
         x.addShip(1, 58, 0, 8, 40, 0);
         return x;
@@ -1521,7 +1544,7 @@ public final class PromiseTests {
 
     private static void strength() {
         about = "promise 29";
-        WindCardShips x = new WindCardShips();
+        CountedShips x = new CountedShips();
         due("captain -1", x.strength(-1), BAD);
         due("captain 2", x.strength(2), BAD);
         for (int extreme : EXTREMES) {
@@ -1541,7 +1564,7 @@ public final class PromiseTests {
         due("half a man", x.strength(1), 44 + 43);
         x.addShip(1, 70, 0, 5, 2, 3);
         due("87.5 and 17.875 are 105.375", x.strength(1), 105);
-        WindCardShips y = new WindCardShips();
+        CountedShips y = new CountedShips();
         y.addShip(1, 70, 0, 5, 2, 3);
         due("17.875", y.strength(1), 17);
         due("a sunk ship", sunk().strength(1), 0);
@@ -1551,8 +1574,8 @@ public final class PromiseTests {
 
     private static void errorsChangeNothing() {
         about = "errors";
-        WindCardShips[] games = {damaged(), sunk(), grappled(), lines(), fought(20, 20)};
-        for (WindCardShips x : games) {
+        CountedShips[] games = {damaged(), sunk(), grappled(), lines(), fought(20, 20)};
+        for (CountedShips x : games) {
             write(x, "t0,0;q");
             int[] before = view(x);
             int[][] calls = {{-1, 0}, {81, 0}, {40, 2}};
@@ -1580,8 +1603,8 @@ public final class PromiseTests {
 
     private static void lookingChangesNothing() {
         about = "what could be";
-        WindCardShips[] games = {damaged(), sunk(), grappled(), lines()};
-        for (WindCardShips x : games) {
+        CountedShips[] games = {damaged(), sunk(), grappled(), lines()};
+        for (CountedShips x : games) {
             int[] before = view(x);
             for (int i = -1; i < 4; i++) {
                 x.targets(i, 0);
